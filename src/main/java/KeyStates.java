@@ -448,7 +448,9 @@ public final class KeyStates {
 
     /**
      * What a state has for a key in a span. It is never changed but replaced, so that a copied page
-     * can hold the same ones; without numbers it stands for an entry that is not there.
+     * can hold the same ones; without numbers it stands for an entry that is not there. A MAP's numbers
+     * and members are rows of one length, members rising; for other kinds there are no members. Folded
+     * is 0 but for a FOLD.
      */
     private static final class Entry {
         final int state;
