@@ -4,8 +4,30 @@ final class Check {
         long go();
     }
 
+    private final String intro;
     private int right = 0;
     private int wrong = 0;
+
+    Check() {
+        this(" ");
+    }
+
+    /** What each wrong answer's line begins with; nothing at all: no lines. */
+    Check(String intro) {
+        this.intro = intro;
+    }
+
+    int rightAnswers() {
+        return right;
+    }
+
+    int wrongAnswers() {
+        return wrong;
+    }
+
+    void is(String what, long want, long got) {
+        judge(what, String.valueOf(got), String.valueOf(want));
+    }
 
     void due(String what, long want, Call call) {
         String got = answer(call);
@@ -37,7 +59,9 @@ final class Check {
             right++;
         } else {
             wrong++;
-            System.out.println(what + " answered " + got + ", due is " + want);
+            if (!intro.isEmpty()) {
+                System.out.println((intro + what).trim() + " answered " + got + ", due is " + want);
+            }
         }
     }
 
@@ -52,6 +76,14 @@ final class Check {
 
     static long bit(boolean b) {
         return b ? 1 : 0;
+    }
+
+    void isFalse(String what, boolean got) {
+        judge(what, String.valueOf(got), "false");
+    }
+
+    void isTrue(String what, boolean got) {
+        judge(what, String.valueOf(got), "true");
     }
 
     void end() {
