@@ -35,7 +35,8 @@ final class EntrySentences {
             c.is("nothing to clear", 0, x.clearSpan());
             x.state(1, VALUE, 0);
             c.is("another object has none of it", 0, new KeyStates().told(0));
-        }, "int stateCount = 0;", "int stateCount = 1;"));
+        },
+            "int stateCount = 0;", "int stateCount = 1;"));
         all.add(Sentence.promise(2, "A STATE: its number", c -> {
             KeyStates x = new KeyStates();
             c.is("the first", 0, x.state(LEAST, VALUE, 0));
@@ -45,8 +46,11 @@ final class EntrySentences {
             c.is("the first's name", LEAST, x.of(0, 0));
             c.is("the third's kind", MAP, x.of(2, 1));
             c.is("the second's type", 2, x.of(1, 2));
-        }, "return now.tellState(kind, type);", "return now.tellState(kind, type) + 1;", "stateCount++;", "",
-            "names[now.stateCount] = name;", "", "types[state] = type; stateCount++;", "stateCount++;"));
+        },
+            "return now.tellState(kind, type);", "return now.tellState(kind, type) + 1;",
+            "stateCount++;", "",
+            "names[now.stateCount] = name;", "",
+            "types[state] = type; stateCount++;", "stateCount++;"));
         all.add(Sentence.promise(2, "(also if one with this NAME, KIND and TYPE is there).", c -> {
             KeyStates x = new KeyStates();
             for (int n = 0; n < 8; n++) {
@@ -58,7 +62,8 @@ final class EntrySentences {
             c.is("eight still", 8, x.told(0));
             x.move(0, LIST, 2);
             c.is("the kind and type that it was moved to", 0, x.state(0, LIST, 2));
-        }, "if (names[s] == name) {", "if (names[s] == name && s > 0) {",
+        },
+            "if (names[s] == name) {", "if (names[s] == name && s > 0) {",
             "now.types[s] == type ? s : NO;", "now.types[s] == type ? FULL : NO;"));
         all.add(Sentence.promise(2, "BAD: no such KIND, TYPE", c -> {
             KeyStates x = Make.states(VALUE, 0);
@@ -72,7 +77,11 @@ final class EntrySentences {
                 c.is("type " + wrong + " of a name that is there", BAD, x.state(100, VALUE, wrong));
             }
             c.is("one state", 1, x.told(0));
-        }, "KINDS = 4", "KINDS = 5", "TYPES = 3", "TYPES = 4", "kind >= 0 &&", "kind >= -1 &&", "type >= 0 &&", "type >= -1 &&",
+        },
+            "KINDS = 4", "KINDS = 5",
+            "TYPES = 3", "TYPES = 4",
+            "kind >= 0 &&", "kind >= -1 &&",
+            "type >= 0 &&", "type >= -1 &&",
             "&& type >= 0 && type < TYPES;", "&& (kind == FOLD || type >= 0 && type < TYPES);"));
         all.add(Sentence.promise(2, "NO: this NAME has another KIND or TYPE", c -> {
             KeyStates x = Make.states(LIST, 1);
@@ -87,7 +96,8 @@ final class EntrySentences {
                 x.state(200 + n, MAP, 0);
             }
             c.is("also of the last", NO, x.state(207, MAP, 1));
-        }, "now.kinds[s] == kind && now.types[s] == type ?", "now.types[s] == type ?",
+        },
+            "now.kinds[s] == kind && now.types[s] == type ?", "now.types[s] == type ?",
             "now.kinds[s] == kind && now.types[s] == type ?", "now.kinds[s] == kind ?",
             "s < now.stateCount; s++", "s + 1 < now.stateCount; s++"));
         all.add(Sentence.promise(2, "FULL.", c -> {
@@ -99,7 +109,9 @@ final class EntrySentences {
             c.is("a ninth", FULL, x.state(8, VALUE, 0));
             c.is("a ninth again", FULL, x.state(LEAST, MAP, 2));
             c.is("eight", 8, x.told(0));
-        }, "MOST_STATES = 8", "MOST_STATES = 7", "MOST_STATES = 8", "MOST_STATES = 9",
+        },
+            "MOST_STATES = 8", "MOST_STATES = 7",
+            "MOST_STATES = 8", "MOST_STATES = 9",
             "if (now.stateCount >= MOST_STATES) { return FULL;", "if (now.stateCount >= MOST_STATES) { return NO;"));
     }
 
@@ -118,7 +130,9 @@ final class EntrySentences {
                 c.is("key " + key + " again", key, x.value(0));
             }
             c.isTrue("one is at hand", x.leave());
-        }, "hasKey = true; keyAtHand = key;", "keyAtHand = key;", "keyAtHand = key;", "keyAtHand = (int) key;",
+        },
+            "hasKey = true; keyAtHand = key;", "keyAtHand = key;",
+            "keyAtHand = key;", "keyAtHand = (int) key;",
             "hasKey = true; keyAtHand = key;", "hasKey = key != 0; keyAtHand = key;"));
         all.add(Sentence.promise(4, "No KEY is at hand any more", c -> {
             KeyStates x = Make.eachKind();
@@ -130,7 +144,9 @@ final class EntrySentences {
             c.is("the entry stays", 1, x.told(1));
             x.key(1);
             c.is("with the key it is there again", 5, x.value(0));
-        }, "hasKey = false; return had;", "return had;", "hasKey = false; return had;", "hasKey = !hasKey; return had;"));
+        },
+            "hasKey = false; return had;", "return had;",
+            "hasKey = false; return had;", "hasKey = !hasKey; return had;"));
         all.add(Sentence.promise(4, "whether one was.", c -> {
             KeyStates x = new KeyStates();
             c.isFalse("at first", x.leave());
@@ -141,7 +157,10 @@ final class EntrySentences {
             x.key(4);
             c.isTrue("after two keys", x.leave());
             c.isFalse("one leave is enough", x.leave());
-        }, "return had;", "return !had;", "return had;", "return true;", "boolean had = hasKey;", "boolean had = hasKey && keyAtHand != 0;"));
+        },
+            "return had;", "return !had;",
+            "return had;", "return true;",
+            "boolean had = hasKey;", "boolean had = hasKey && keyAtHand != 0;"));
         all.add(Sentence.promise(5, "A SPAN is at hand", c -> {
             KeyStates x = Make.eachKind();
             int[] spans = {LEAST, -1, 0, 1, MOST};
@@ -158,7 +177,9 @@ final class EntrySentences {
             x.span(7);
             x.key(1);
             c.is("a span without a key", 0, x.size(0));
-        }, "spanAtHand = span;", "", "spanAtHand = span;", "spanAtHand = Math.max(span, 0);"));
+        },
+            "spanAtHand = span;", "",
+            "spanAtHand = span;", "spanAtHand = Math.max(span, 0);"));
         all.add(Sentence.promise(5, "which one was.", c -> {
             KeyStates x = new KeyStates();
             c.is("at first", 0, x.span(LEAST));
@@ -168,7 +189,8 @@ final class EntrySentences {
             x.key(4);
             x.leave();
             c.is("a key changes it not", -3, x.span(0));
-        }, "return before;", "return spanAtHand;"));
+        },
+            "return before;", "return spanAtHand;"));
     }
 
     private static void putAndValue(List<Sentence> all) {
@@ -182,7 +204,8 @@ final class EntrySentences {
             c.badArgument("a list", () -> x.put(1, 0));
             c.badArgument("a map", () -> x.put(2, 0));
             c.badArgument("a fold", () -> x.put(3, 0));
-        }, "keep(old.withOnly(v));", "keep(old.withOneMore(v));",
+        },
+            "keep(old.withOnly(v));", "keep(old.withOneMore(v));",
             "keep(old.withOnly(v));", "if (old.isNone()) { keep(old.withOnly(v)); }",
             "keep(old.withOnly(v));", "keep(old.withOnly((int) v));",
             "needToWrite(state, VALUE, v);", "needToWrite(state, now.kinds[state & 3], v);"));
@@ -199,7 +222,9 @@ final class EntrySentences {
             c.is("in another span", 1, x.put(0, 9));
             x.key(2);
             c.is("for another key", 1, x.put(0, 9));
-        }, "return old.isNone() ? 1 : 0;", "return old.isNone() ? 0 : 1;", "return old.isNone() ? 1 : 0;", "return 1;",
+        },
+            "return old.isNone() ? 1 : 0;", "return old.isNone() ? 0 : 1;",
+            "return old.isNone() ? 1 : 0;", "return 1;",
             "return old.isNone() ? 1 : 0;", "return 0;"));
         all.add(Sentence.promise(6, "FULL.", c -> {
             KeyStates x = Make.with(149);
@@ -213,11 +238,14 @@ final class EntrySentences {
             c.is("has the number", -5, x.value(0));
             x.clear(0);
             c.is("room for one", 1, x.put(0, 1));
-        }, "MOST_ENTRIES = 150", "MOST_ENTRIES = 149", "MOST_ENTRIES = 150", "MOST_ENTRIES = 151",
+        },
+            "MOST_ENTRIES = 150", "MOST_ENTRIES = 149",
+            "MOST_ENTRIES = 150", "MOST_ENTRIES = 151",
             "if (hasNoRoomFor(old)) { return FULL; } keep(old.withOnly(v));", "keep(old.withOnly(v));",
-            "return old.isNone() && now.countEntries() >= MOST_ENTRIES;", "return now.countEntries() >= MOST_ENTRIES;",
+            "return old.isNone() && now.countEntries() >= MOST_ENTRIES;",
+                "return now.countEntries() >= MOST_ENTRIES;",
             "if (hasNoRoomFor(old)) { return FULL; } keep(old.withOnly(v));",
-            "if (hasNoRoomFor(old)) { return NO; } keep(old.withOnly(v));"));
+                "if (hasNoRoomFor(old)) { return NO; } keep(old.withOnly(v));"));
         all.add(Sentence.promise(7, "VALUE, FOLD: the number.", c -> {
             KeyStates x = Make.eachKind();
             x.put(0, Long.MIN_VALUE);
@@ -231,7 +259,8 @@ final class EntrySentences {
             x.set(2, 1, 1);
             c.badArgument("a list's", () -> x.value(1));
             c.badArgument("a map's", () -> x.value(2));
-        }, "needToRead(state, VALUE, FOLD);", "needToRead(state, VALUE, VALUE);",
+        },
+            "needToRead(state, VALUE, FOLD);", "needToRead(state, VALUE, VALUE);",
             "needToRead(state, VALUE, FOLD);", "needToRead(state, FOLD, FOLD);",
             "needToRead(state, VALUE, FOLD);", "needToRead(state, VALUE, now.kinds[state]);",
             "return entry.numbers[0];", "return (int) entry.numbers[0];"));
@@ -250,7 +279,8 @@ final class EntrySentences {
             x.clear(3);
             c.noElement("cleared", () -> x.value(0));
             c.noElement("the fold too", () -> x.value(3));
-        }, "throw new NoSuchElementException(\"there is no entry\");", "return 0;",
+        },
+            "throw new NoSuchElementException(\"there is no entry\");", "return 0;",
             "throw new NoSuchElementException(\"there is no entry\");", "throw new IllegalStateException();",
             "throw new NoSuchElementException(\"there is no entry\");", "throw new IndexOutOfBoundsException();"));
     }
@@ -270,7 +300,9 @@ final class EntrySentences {
             c.badArgument("a value", () -> x.add(0, 0));
             c.badArgument("a map", () -> x.add(2, 0));
             c.badArgument("a fold", () -> x.add(3, 0));
-        }, "return old.numbers.length + 1;", "return old.numbers.length;", "keep(old.withOneMore(v));", "keep(old.withOnly(v));",
+        },
+            "return old.numbers.length + 1;", "return old.numbers.length;",
+            "keep(old.withOneMore(v));", "keep(old.withOnly(v));",
             "inserted(numbers, numbers.length, v)", "inserted(numbers, 0, v)"));
         all.add(Sentence.promise(8, "FULL: 10", c -> {
             KeyStates x = Make.eachKind();
@@ -284,10 +316,11 @@ final class EntrySentences {
             c.is("the tenth is the last", 10, x.item(1, 9));
             x.span(1);
             c.is("another entry has room", 1, x.add(1, 11));
-        }, "old.numbers.length >= MOST_NUMBERS ||", "old.numbers.length > MOST_NUMBERS ||",
+        },
+            "old.numbers.length >= MOST_NUMBERS ||", "old.numbers.length > MOST_NUMBERS ||",
             "old.numbers.length >= MOST_NUMBERS ||", "old.numbers.length >= MOST_NUMBERS - 1 ||",
             "if (old.numbers.length >= MOST_NUMBERS || hasNoRoomFor(old)) { return FULL;",
-            "if (old.numbers.length >= MOST_NUMBERS) { return NO; } if (hasNoRoomFor(old)) { return FULL;"));
+                "if (old.numbers.length >= MOST_NUMBERS) { return NO; } if (hasNoRoomFor(old)) { return FULL;"));
         all.add(Sentence.promise(8, "or 150 ENTRIES.", c -> {
             KeyStates x = Make.with(149);
             c.is("the 150th", 1, x.add(1, 1));
@@ -299,9 +332,10 @@ final class EntrySentences {
             x.key(1000);
             x.clear(0);
             c.is("room for one", 1, x.add(1, 1));
-        }, "old.numbers.length >= MOST_NUMBERS || hasNoRoomFor(old)", "old.numbers.length >= MOST_NUMBERS",
+        },
+            "old.numbers.length >= MOST_NUMBERS || hasNoRoomFor(old)", "old.numbers.length >= MOST_NUMBERS",
             "old.numbers.length >= MOST_NUMBERS || hasNoRoomFor(old)",
-            "old.numbers.length >= MOST_NUMBERS || now.countEntries() >= MOST_ENTRIES",
+                "old.numbers.length >= MOST_NUMBERS || now.countEntries() >= MOST_ENTRIES",
             "MOST_ENTRIES = 150", "MOST_ENTRIES = 149"));
         all.add(Sentence.promise(9, "LIST: number i", c -> {
             KeyStates x = Make.eachKind();
@@ -311,7 +345,9 @@ final class EntrySentences {
             for (int n = 0; n < 10; n++) {
                 c.is("number " + n, 50 - 7 * n, x.item(1, n));
             }
-        }, "needToRead(state, LIST, MAP);", "needToRead(state, MAP, MAP);", "return row[i];", "return row[row.length - 1 - i];"));
+        },
+            "needToRead(state, LIST, MAP);", "needToRead(state, MAP, MAP);",
+            "return row[i];", "return row[row.length - 1 - i];"));
         all.add(Sentence.promise(9, "MAP: that of the i-th MEMBER by rising ones.", c -> {
             KeyStates x = Make.eachKind();
             x.set(2, 0, 1);
@@ -327,11 +363,12 @@ final class EntrySentences {
             c.is("the number it has now", 9, x.item(2, 1));
             x.remove(2, Long.MIN_VALUE);
             c.is("the least that is left", 9, x.item(2, 0));
-        }, "needToRead(state, LIST, MAP);", "needToRead(state, LIST, LIST);",
+        },
+            "needToRead(state, LIST, MAP);", "needToRead(state, LIST, LIST);",
             "int placeOf(long member) { return countBelow(members, members.length, member);",
-            "int placeOf(long member) { return members.length > 0 && members[0] == member ? 0 : members.length;",
+                "int placeOf(long member) { return members.length > 0 && members[0] == member ? 0 : members.length;",
             "return numberAt(entryAtHand(state).numbers, i);",
-            "return numberAt(now.kinds[state] == MAP ? entryAtHand(state).members : entryAtHand(state).numbers, i);",
+                "return numberAt(now.kinds[state] == MAP ? entryAtHand(state).members : entryAtHand(state).numbers, i);",
             "row[at] < x) {", "(int) row[at] < (int) x) {"));
         all.add(Sentence.promise(9, "IndexOutOfBoundsException: none such.", c -> {
             KeyStates x = Make.eachKind();
@@ -347,7 +384,9 @@ final class EntrySentences {
                 c.outOfBounds("another key's of kind " + s, () -> x.item(state, 0));
                 x.key(1);
             }
-        }, "if (i < 0 || i >= row.length) {", "if (i >= row.length) {", "if (i < 0 || i >= row.length) {", "if (i < 0 || i > row.length) {",
+        },
+            "if (i < 0 || i >= row.length) {", "if (i >= row.length) {",
+            "if (i < 0 || i >= row.length) {", "if (i < 0 || i > row.length) {",
             "throw new IndexOutOfBoundsException(\"none such\");", "return 0;",
             "throw new IndexOutOfBoundsException(\"none such\");", "throw new NoSuchElementException();"));
     }
@@ -369,8 +408,11 @@ final class EntrySentences {
             c.badArgument("a value", () -> x.set(0, 0, 0));
             c.badArgument("a list", () -> x.set(1, 0, 0));
             c.badArgument("a fold", () -> x.set(3, 0, 0));
-        }, "changed[at] = v;", "", "inserted(numbers, at, v)", "inserted(numbers, 0, v)",
-            "inserted(members, at, member)", "inserted(members, 0, member)", "inserted(members, at, member)", "inserted(members, at, (int) member)"));
+        },
+            "changed[at] = v;", "",
+            "inserted(numbers, at, v)", "inserted(numbers, 0, v)",
+            "inserted(members, at, member)", "inserted(members, 0, member)",
+            "inserted(members, at, member)", "inserted(members, at, (int) member)"));
         all.add(Sentence.promise(10, "1: it was not there, 0", c -> {
             KeyStates x = Make.eachKind();
             c.is("the first", 1, x.set(2, 5, 5));
@@ -383,9 +425,11 @@ final class EntrySentences {
             c.is("after it was removed", 1, x.set(2, 5, 5));
             x.span(1);
             c.is("in another span", 1, x.set(2, 5, 5));
-        }, "keep(old.withNumberAt(at, v)); return 0;", "keep(old.withNumberAt(at, v)); return 1;",
+        },
+            "keep(old.withNumberAt(at, v)); return 0;", "keep(old.withNumberAt(at, v)); return 1;",
             "keep(old.withMember(at, member, v)); return 1;", "keep(old.withMember(at, member, v)); return 0;",
-            "keep(old.withMember(at, member, v)); return 1;", "keep(old.withMember(at, member, v)); return old.isNone() ? 1 : 0;"));
+            "keep(old.withMember(at, member, v)); return 1;",
+                "keep(old.withMember(at, member, v)); return old.isNone() ? 1 : 0;"));
         all.add(Sentence.promise(10, "FULL: 10", c -> {
             KeyStates x = Make.eachKind();
             for (int m = 1; m < 10; m++) {
@@ -402,11 +446,13 @@ final class EntrySentences {
             x.remove(2, 10);
             c.is("room for one", 1, x.set(2, 11, 1));
             c.is("but no more", FULL, x.set(2, 10, 1));
-        }, "old.members.length >= MOST_NUMBERS ||", "old.members.length > MOST_NUMBERS ||",
+        },
+            "old.members.length >= MOST_NUMBERS ||", "old.members.length > MOST_NUMBERS ||",
             "old.members.length >= MOST_NUMBERS ||", "old.members.length >= MOST_NUMBERS - 1 ||",
-            "if (old.hasMember(at, member)) {", "if (old.members.length >= MOST_NUMBERS) { return FULL; } if (old.hasMember(at, member)) {",
+            "if (old.hasMember(at, member)) {",
+                "if (old.members.length >= MOST_NUMBERS) { return FULL; } if (old.hasMember(at, member)) {",
             "if (old.members.length >= MOST_NUMBERS || hasNoRoomFor(old)) { return FULL;",
-            "if (old.members.length >= MOST_NUMBERS) { return NO; } if (hasNoRoomFor(old)) { return FULL;"));
+                "if (old.members.length >= MOST_NUMBERS) { return NO; } if (hasNoRoomFor(old)) { return FULL;"));
         all.add(Sentence.promise(10, "or 150 ENTRIES.", c -> {
             KeyStates x = Make.with(149);
             c.is("the 150th", 1, x.set(2, 1, 1));
@@ -419,9 +465,10 @@ final class EntrySentences {
             x.key(1000);
             x.clear(0);
             c.is("room for one", 1, x.set(2, 1, 1));
-        }, "old.members.length >= MOST_NUMBERS || hasNoRoomFor(old)", "old.members.length >= MOST_NUMBERS",
+        },
+            "old.members.length >= MOST_NUMBERS || hasNoRoomFor(old)", "old.members.length >= MOST_NUMBERS",
             "old.members.length >= MOST_NUMBERS || hasNoRoomFor(old)",
-            "old.members.length >= MOST_NUMBERS || now.countEntries() >= MOST_ENTRIES",
+                "old.members.length >= MOST_NUMBERS || now.countEntries() >= MOST_ENTRIES",
             "MOST_ENTRIES = 150", "MOST_ENTRIES = 149"));
     }
 
@@ -437,7 +484,9 @@ final class EntrySentences {
             c.badArgument("a value", () -> x.get(0, 0));
             c.badArgument("a list", () -> x.get(1, 0));
             c.badArgument("a fold", () -> x.get(3, 0));
-        }, "return entry.numbers[at];", "return entry.numbers[0];", "return entry.numbers[at];", "return entry.members[at];"));
+        },
+            "return entry.numbers[at];", "return entry.numbers[0];",
+            "return entry.numbers[at];", "return entry.members[at];"));
         all.add(Sentence.promise(11, "NoSuchElementException: it is not there.", c -> {
             KeyStates x = Make.eachKind();
             c.noElement("no entry", () -> x.get(2, 0));
@@ -451,8 +500,10 @@ final class EntrySentences {
             c.noElement("removed", () -> x.get(2, 3));
             x.key(2);
             c.noElement("another key's", () -> x.get(2, 5));
-        }, "throw new NoSuchElementException(\"the member is not there\");", "return 0;",
-            "throw new NoSuchElementException(\"the member is not there\");", "throw new IndexOutOfBoundsException();",
+        },
+            "throw new NoSuchElementException(\"the member is not there\");", "return 0;",
+            "throw new NoSuchElementException(\"the member is not there\");",
+                "throw new IndexOutOfBoundsException();",
             "return at < members.length && members[at] == member;", "return at < members.length;",
             "members[at] == member;", "(int) members[at] == (int) member;"));
         all.add(Sentence.promise(12, "MAP: the i-th MEMBER, by rising ones.", c -> {
@@ -471,8 +522,10 @@ final class EntrySentences {
             c.badArgument("a list", () -> x.member(1, 0));
             c.badArgument("a value", () -> x.member(0, 0));
             c.badArgument("a fold", () -> x.member(3, 0));
-        }, "return numberAt(entryAtHand(state).members, i);", "return numberAt(entryAtHand(state).numbers, i);",
-            "row[at] < x) {", "row[at] - x < 0) {", "without(members, at)", "without(members, 0)"));
+        },
+            "return numberAt(entryAtHand(state).members, i);", "return numberAt(entryAtHand(state).numbers, i);",
+            "row[at] < x) {", "row[at] - x < 0) {",
+            "without(members, at)", "without(members, 0)"));
         all.add(Sentence.promise(12, "IndexOutOfBoundsException: none such.", c -> {
             KeyStates x = Make.eachKind();
             c.outOfBounds("no entry", () -> x.member(2, 0));
@@ -488,7 +541,9 @@ final class EntrySentences {
             c.outOfBounds("an eleventh", () -> x.member(2, 10));
             x.span(1);
             c.outOfBounds("another span's", () -> x.member(2, 0));
-        }, "if (i < 0 || i >= row.length) {", "if (i >= row.length) {", "if (i < 0 || i >= row.length) {", "if (i < 0 || i > row.length) {",
+        },
+            "if (i < 0 || i >= row.length) {", "if (i >= row.length) {",
+            "if (i < 0 || i >= row.length) {", "if (i < 0 || i > row.length) {",
             "throw new IndexOutOfBoundsException(\"none such\");", "return 0;",
             "throw new IndexOutOfBoundsException(\"none such\");", "throw new NoSuchElementException();"));
         all.add(Sentence.promise(13, "MAP: a MEMBER goes", c -> {
@@ -512,8 +567,12 @@ final class EntrySentences {
             c.badArgument("a value", () -> Check.bit(x.remove(0, 0)));
             c.badArgument("a list", () -> Check.bit(x.remove(1, 0)));
             c.badArgument("a fold", () -> Check.bit(x.remove(3, 0)));
-        }, "keep(old.withoutMember(at));", "", "without(numbers, at)", "without(numbers, 0)", "without(members, at)", "without(members, 0)",
-            "rows[row] = entry.isNone() ? null : entry;", "rows[row] = entry;", "keep(old.withoutMember(at));", "keep(old.withNothing());"));
+        },
+            "keep(old.withoutMember(at));", "",
+            "without(numbers, at)", "without(numbers, 0)",
+            "without(members, at)", "without(members, 0)",
+            "rows[row] = entry.isNone() ? null : entry;", "rows[row] = entry;",
+            "keep(old.withoutMember(at));", "keep(old.withNothing());"));
         all.add(Sentence.promise(13, "whether it was there.", c -> {
             KeyStates x = Make.eachKind();
             c.isFalse("no entry", x.remove(2, 0));
@@ -527,7 +586,8 @@ final class EntrySentences {
             c.isFalse("not any more", x.remove(2, 5));
             c.isTrue("the last", x.remove(2, 3));
             c.isFalse("not any more either", x.remove(2, 3));
-        }, "keep(old.withoutMember(at)); return true;", "keep(old.withoutMember(at)); return false;",
+        },
+            "keep(old.withoutMember(at)); return true;", "keep(old.withoutMember(at)); return false;",
             "if (!old.hasMember(at, member)) { return false;", "if (!old.hasMember(at, member)) { return true;",
             "members[at] == member;", "(int) members[at] == (int) member;"));
     }
@@ -551,8 +611,10 @@ final class EntrySentences {
                 int state = s;
                 c.badArgument("another kind", () -> x.fold(state, 0));
             }
-        }, "keep(old.withFolded(now.types[state], v));", "keep(old.withFolded(0, v));",
-            "keep(old.withFolded(now.types[state], v));", "if (old.isNone()) { keep(old.withFolded(now.types[state], v)); }",
+        },
+            "keep(old.withFolded(now.types[state], v));", "keep(old.withFolded(0, v));",
+            "keep(old.withFolded(now.types[state], v));",
+                "if (old.isNone()) { keep(old.withFolded(now.types[state], v)); }",
             "joined(type, numbers[0], v)", "joined(type, numbers[0], numbers[0])"));
         all.add(Sentence.promise(14, "how many were", c -> {
             KeyStates x = Make.eachKind();
@@ -565,7 +627,9 @@ final class EntrySentences {
             c.is("the first after it was cleared", 1, x.fold(3, 0));
             x.key(1);
             c.is("the first key's again", 31, x.fold(3, 0));
-        }, "return old.folded + 1;", "return old.folded;", "return old.folded + 1;", "return Math.min(old.folded + 1, MOST_NUMBERS);",
+        },
+            "return old.folded + 1;", "return old.folded;",
+            "return old.folded + 1;", "return Math.min(old.folded + 1, MOST_NUMBERS);",
             "EMPTY, folded + 1)", "EMPTY, 1)"));
         all.add(Sentence.promise(14, "FULL.", c -> {
             KeyStates x = Make.with(149);
@@ -578,9 +642,11 @@ final class EntrySentences {
             x.key(1000);
             x.clear(0);
             c.is("room for one", 1, x.fold(3, 1));
-        }, "if (hasNoRoomFor(old)) { return FULL; } keep(old.withFolded", "keep(old.withFolded",
+        },
+            "if (hasNoRoomFor(old)) { return FULL; } keep(old.withFolded", "keep(old.withFolded",
             "if (hasNoRoomFor(old)) { return FULL; } keep(old.withFolded",
-            "if (now.countEntries() >= MOST_ENTRIES) { return FULL; } keep(old.withFolded", "MOST_ENTRIES = 150", "MOST_ENTRIES = 149"));
+                "if (now.countEntries() >= MOST_ENTRIES) { return FULL; } keep(old.withFolded",
+            "MOST_ENTRIES = 150", "MOST_ENTRIES = 149"));
     }
 
     private static void sizeAndClear(List<Sentence> all) {
@@ -602,7 +668,8 @@ final class EntrySentences {
             c.is("a map stays", 10, x.size(2));
             x.remove(2, 10);
             c.is("a map of nine", 9, x.size(2));
-        }, "? entry.folded : entry.numbers.length;", "? entry.folded : entry.members.length;",
+        },
+            "? entry.folded : entry.numbers.length;", "? entry.folded : entry.members.length;",
             "? entry.folded : entry.numbers.length;", "? entry.folded : Math.min(9, entry.numbers.length);"));
         all.add(Sentence.promise(15, "(FOLD: how many were folded)", c -> {
             KeyStates x = Make.eachKind();
@@ -614,7 +681,8 @@ final class EntrySentences {
             x.add(1, 6);
             x.move(1, FOLD, 2);
             c.is("a list that was moved", 2, x.size(1));
-        }, "? entry.folded : entry.numbers.length;", "? entry.numbers.length : entry.numbers.length;",
+        },
+            "? entry.folded : entry.numbers.length;", "? entry.numbers.length : entry.numbers.length;",
             "? entry.folded : entry.numbers.length;", "? Math.min(10, entry.folded) : entry.numbers.length;"));
         all.add(Sentence.promise(15, "0: there is none.", c -> {
             KeyStates x = Make.eachKind();
@@ -631,9 +699,11 @@ final class EntrySentences {
                 c.is("none any more", 0, x.size(s));
             }
             c.is("asking makes none", 0, x.told(1));
-        }, "Entry entry = entryAtHand(state); return now.kinds",
-            "Entry entry = entryAtHand(state); if (entry.isNone()) { throw new NoSuchElementException(); } return now.kinds",
-            "&& span == otherSpan", "", "keep(old.withNothing());", ""));
+        },
+            "Entry entry = entryAtHand(state); return now.kinds",
+                "Entry entry = entryAtHand(state); if (entry.isNone()) { throw new NoSuchElementException(); } return now.kinds",
+            "&& span == otherSpan", "",
+            "keep(old.withNothing());", ""));
         all.add(Sentence.promise(16, "The ENTRY goes", c -> {
             KeyStates x = Make.eachKind();
             for (int s = 0; s < 4; s++) {
@@ -652,7 +722,10 @@ final class EntrySentences {
             c.is("a fold begins anew", 1, x.fold(3, 7));
             c.is("with its number", 7, x.value(3));
             c.is("a list too", 1, x.add(1, 8));
-        }, "keep(old.withNothing());", "", "keep(old.withNothing());", "pageToChange(pageNumber(state, keyAtHand, spanAtHand)).loseSpan(spanAtHand);",
+        },
+            "keep(old.withNothing());", "",
+            "keep(old.withNothing());",
+                "pageToChange(pageNumber(state, keyAtHand, spanAtHand)).loseSpan(spanAtHand);",
             "rows[row] = entry.isNone() ? null : entry;", "rows[row] = entry;"));
         all.add(Sentence.promise(16, "whether there was one.", c -> {
             KeyStates x = Make.eachKind();
@@ -668,7 +741,8 @@ final class EntrySentences {
             x.set(2, 1, 1);
             x.remove(2, 1);
             c.isFalse("a map without members", x.clear(2));
-        }, "if (old.isNone()) { return false;", "if (old.isNone()) { return true;",
+        },
+            "if (old.isNone()) { return false;", "if (old.isNone()) { return true;",
             "keep(old.withNothing()); return true;", "keep(old.withNothing()); return false;"));
     }
 }

@@ -16,8 +16,9 @@ final class MoveSentences {
             MoveSentences::eachEntry,
             "rows[r] = rows[r].movedTo(kind, type);", "if (moved == 0) { rows[r] = rows[r].movedTo(kind, type); }",
             "if (rows[r] != null && rows[r].state == state) { rows[r] = rows[r].movedTo",
-            "if (rows[r] != null) { rows[r] = rows[r].movedTo",
-            "now.kinds[state] = kind;", "", "now.types[state] = type;", ""));
+                "if (rows[r] != null) { rows[r] = rows[r].movedTo",
+            "now.kinds[state] = kind;", "",
+            "now.types[state] = type;", ""));
         ofValues(all);
         ofListsAndFolds(all);
         ofMaps(all);
@@ -35,14 +36,20 @@ final class MoveSentences {
             "return to == VALUE;", "return to == VALUE || to == FOLD;",
             "return to == VALUE;", "return to == VALUE || to == LIST;",
             "return to == VALUE;", "return to == VALUE || to == MAP;",
-            "if (!canMove(now.kinds[state], kind) ||", "if (!canMove(now.kinds[state], kind) && now.countEntries() > 0 ||"));
+            "if (!canMove(now.kinds[state], kind) ||",
+                "if (!canMove(now.kinds[state], kind) && now.countEntries() > 0 ||"));
         all.add(Sentence.terms("and when some number would not FIT.", MoveSentences::someNumberWouldNotFit,
             "|| !now.allFit(state, kind, type)", "",
+            "p = 0; p < PAGES; p++) { if (!pages[p].allFit", "p = 1; p < PAGES; p++) { if (!pages[p].allFit",
+            "p < PAGES; p++) { if (!pages[p].allFit", "p < PAGES - 1; p++) { if (!pages[p].allFit",
             "i < numbers.length; i++) { if (!fits(", "i < Math.min(1, numbers.length); i++) { if (!fits(",
-            "for (int i = 0; i < numbers.length; i++) { if (!fits(", "for (int i = 1; i < numbers.length; i++) { if (!fits(",
+            "for (int i = 0; i < numbers.length; i++) { if (!fits(",
+                "for (int i = 1; i < numbers.length; i++) { if (!fits(",
             "rows[r].state == state && !rows[r].allFit(", "!rows[r].allFit(",
             "if (!fits(kind, type, numbers[i])) {", "if (!fits(VALUE, type, numbers[i])) {",
-            "v >= -1000", "v > -1000", "v <= 1000", "v < 1000", ": v >= 0;", ": v > 0;"));
+            "v >= -1000", "v > -1000",
+            "v <= 1000", "v < 1000",
+            ": v >= 0;", ": v > 0;"));
         return all;
     }
 
@@ -83,7 +90,8 @@ final class MoveSentences {
                 c.is("room for nine more", n, x.add(0, n));
             }
             c.is("and no tenth", FULL, x.add(0, 0));
-        }, "return to != MAP;", "return to == VALUE || to == FOLD;",
+        },
+            "return to != MAP;", "return to == VALUE || to == FOLD;",
             "numbers.length >= MOST_NUMBERS ||", "numbers.length >= MOST_NUMBERS - 1 ||"));
         all.add(Sentence.terms("VALUE to FOLD: its number, 1 folded", c -> {
             for (int type = 0; type <= 2; type++) {
@@ -96,7 +104,8 @@ final class MoveSentences {
                 c.is("the next is the second", 2, x.fold(0, -9));
                 c.is("folded as the type says", type == 0 ? -17 : type == 1 ? -9 : -8, x.value(0));
             }
-        }, "new long[] {all}, EMPTY, numbers.length)", "new long[] {all}, EMPTY, numbers.length - 1)",
+        },
+            "new long[] {all}, EMPTY, numbers.length)", "new long[] {all}, EMPTY, numbers.length - 1)",
             "return to != MAP;", "return to == VALUE || to == LIST;",
             "long all = numbers[0];", "long all = joined(type, numbers[0], 0);"));
     }
@@ -120,11 +129,14 @@ final class MoveSentences {
                 c.is("one was folded", 1, x.size(1));
                 c.is("the number of it", -5, x.value(1));
             }
-        }, "EMPTY, numbers.length);", "EMPTY, 1);", "all = joined(type, all, numbers[i]);", "all += numbers[i];",
+        },
+            "EMPTY, numbers.length);", "EMPTY, 1);",
+            "all = joined(type, all, numbers[i]);", "all += numbers[i];",
             "for (int i = 1; i < numbers.length; i++) { all", "for (int i = 1; i + 1 < numbers.length; i++) { all",
             "for (int i = 1; i < numbers.length; i++) { all", "for (int i = 0; i < numbers.length; i++) { all",
             "return to == LIST || to == FOLD;", "return to == LIST;",
-            "return foldedUp(type);", "return foldedUp(SUM);", "return foldedUp(type);", "return foldedUp(LEAST);"));
+            "return foldedUp(type);", "return foldedUp(SUM);",
+            "return foldedUp(type);", "return foldedUp(LEAST);"));
         all.add(Sentence.terms("FOLD to VALUE: its number", c -> {
             KeyStates x = Make.eachKind();
             x.fold(3, 40);
@@ -135,7 +147,9 @@ final class MoveSentences {
             c.is("and is there", 0, x.put(3, 5));
             c.is("nothing is left of what was folded", 1, x.move(3, FOLD, 0));
             c.is("but for this one", 1, x.size(3));
-        }, "return to == VALUE;", "return false;", "? entry.folded : entry.numbers.length", "? entry.folded : entry.folded"));
+        },
+            "return to == VALUE;", "return false;",
+            "? entry.folded : entry.numbers.length", "? entry.folded : entry.folded"));
     }
 
     private static void ofMaps(List<Sentence> all) {
@@ -156,7 +170,9 @@ final class MoveSentences {
             c.badArgument("it has no members", () -> x.member(2, 0));
             c.is("and can be folded", 1, x.move(2, FOLD, 0));
             c.is("all ten", 10, x.size(2));
-        }, "return to == MAP || to == LIST;", "return to == MAP;", "row[at] < x) {", "row[at] > x) {"));
+        },
+            "return to == MAP || to == LIST;", "return to == MAP;",
+            "row[at] < x) {", "row[at] > x) {"));
     }
 
     private static void asItIs(Check c) {
@@ -227,6 +243,13 @@ final class MoveSentences {
         x.fold(3, 600);
         x.fold(3, 600);
         c.is("the sum does not fit", NO, x.move(3, VALUE, 1));
+        for (int p = 0; p < 16; p++) {
+            KeyStates z = Make.states(VALUE, 0);
+            Make.putOnAllPages(z, 5);
+            z.key(p);
+            z.put(0, -1);
+            c.is("the one on page " + p + " does not fit", NO, z.move(0, VALUE, 2));
+        }
         KeyStates y = Make.states(VALUE, 0, VALUE, 0);
         Make.fill(y, 148);
         y.key(-5);

@@ -63,7 +63,9 @@ final class TermSentences {
             c.is("how many", 8, x.told(0));
             c.is("the eighth is there", 43, x.of(7, 0));
             c.outOfBounds("the ninth is not", () -> x.of(8, 0));
-        }, "MOST_STATES = 8", "MOST_STATES = 9", "MOST_STATES = 8", "MOST_STATES = 7"));
+        },
+            "MOST_STATES = 8", "MOST_STATES = 9",
+            "MOST_STATES = 8", "MOST_STATES = 7"));
         all.add(Sentence.terms("each has a NAME, a KIND (0 VALUE, 1 LIST, 2 MAP, 3 FOLD) and a TYPE (0 .. 2).", c -> {
             int[] names = {0, -1, LEAST, MOST};
             for (int type = 0; type <= 2; type++) {
@@ -80,7 +82,10 @@ final class TermSentences {
                 c.is("2 is a MAP", 1, x.set(2, 5, 5));
                 c.is("3 is a FOLD", 1, x.fold(3, 5));
             }
-        }, "KINDS = 4", "KINDS = 3", "TYPES = 3", "TYPES = 2", "LIST = 1, MAP = 2", "LIST = 2, MAP = 1"));
+        },
+            "KINDS = 4", "KINDS = 3",
+            "TYPES = 3", "TYPES = 2",
+            "LIST = 1, MAP = 2", "LIST = 2, MAP = 1"));
     }
 
     private static void fitting(List<Sentence> all) {
@@ -93,13 +98,20 @@ final class TermSentences {
                     x.clear(0);
                 }
             }
-        }, "kind == FOLD || type == 0", "kind == FOLD || type == 0 && v != Long.MIN_VALUE",
+        },
+            "kind == FOLD || type == 0", "kind == FOLD || type == 0 && v != Long.MIN_VALUE",
             "kind == FOLD || type == 0", "kind == FOLD"));
         all.add(Sentence.terms("of 1 if it is -1000 .. 1000", c -> fitsOnlyFrom(c, 1, -1000, 1000),
-            "v >= -1000", "v > -1000", "v >= -1000", "v >= -1001", "v <= 1000", "v < 1000", "v <= 1000", "v <= 1001",
-            "v >= -1000 &&", "v != -1001 &&", "v <= 1000", "v != 1001"));
+            "v >= -1000", "v > -1000",
+            "v >= -1000", "v >= -1001",
+            "v <= 1000", "v < 1000",
+            "v <= 1000", "v <= 1001",
+            "v >= -1000 &&", "v != -1001 &&",
+            "v <= 1000", "v != 1001"));
         all.add(Sentence.terms("of 2 if it is not below 0", c -> fitsOnlyFrom(c, 2, 0, Long.MAX_VALUE),
-            ": v >= 0;", ": v > 0;", ": v >= 0;", ": v >= -1;", ": v >= 0;", ": v >= 0 && v < Long.MAX_VALUE;"));
+            ": v >= 0;", ": v > 0;",
+            ": v >= 0;", ": v >= -1;",
+            ": v >= 0;", ": v >= 0 && v < Long.MAX_VALUE;"));
         all.add(Sentence.terms("a FOLD always.", c -> {
             for (int type = 0; type <= 2; type++) {
                 for (long v : FAR) {
@@ -109,7 +121,8 @@ final class TermSentences {
                     c.is(v + " once more", 2, x.fold(0, v));
                 }
             }
-        }, "kind == FOLD || type == 0", "type == 0"));
+        },
+            "kind == FOLD || type == 0", "type == 0"));
     }
 
     private static void fitsOnlyFrom(Check c, int type, long least, long most) {
@@ -141,7 +154,9 @@ final class TermSentences {
             for (int n = 0; n < 8; n++) {
                 c.is("entry " + n, 100 + n, x.ask(-1, n >> 2, keys[n & 1], spans[n >> 1 & 1], 0));
             }
-        }, "now.entryOf(state, keyAtHand", "now.entryOf(0, keyAtHand", "key == otherKey", "(int) key == (int) otherKey",
+        },
+            "now.entryOf(state, keyAtHand", "now.entryOf(0, keyAtHand",
+            "key == otherKey", "(int) key == (int) otherKey",
             "&& span == otherSpan", ""));
         all.add(Sentence.terms("150 at most are there at a time.", c -> {
             KeyStates x = Make.with(146);
@@ -164,7 +179,9 @@ final class TermSentences {
             c.is("but for one", FULL, x.put(0, 1));
             c.is("all of a span go", 4, x.clearSpan());
             c.is("room for four", 1, x.put(0, 1));
-        }, "MOST_ENTRIES = 150", "MOST_ENTRIES = 149", "MOST_ENTRIES = 150", "MOST_ENTRIES = 151",
+        },
+            "MOST_ENTRIES = 150", "MOST_ENTRIES = 149",
+            "MOST_ENTRIES = 150", "MOST_ENTRIES = 151",
             "old.isNone() && now.countEntries() >=", "old.isNone() && now.countEntriesOf(old.state) >="));
         all.add(Sentence.terms("It has, by the KIND, a number", c -> {
             KeyStates x = Make.eachKind();
@@ -173,7 +190,8 @@ final class TermSentences {
             c.is("a VALUE has one number", 1, x.size(0));
             c.is("the last", 8, x.ask(-1, 0, 1, 0, 0));
             c.noElement("and no second", () -> x.ask(-1, 0, 1, 0, 1));
-        }, "keep(old.withOnly(v));", "keep(old.withOneMore(v));"));
+        },
+            "keep(old.withOnly(v));", "keep(old.withOneMore(v));"));
         all.add(Sentence.terms("1 to 10 numbers in a row", c -> {
             KeyStates x = Make.eachKind();
             c.outOfBounds("none: no entry", () -> x.item(1, 0));
@@ -185,7 +203,9 @@ final class TermSentences {
             }
             c.is("an eleventh", FULL, x.add(1, 0));
             c.is("ten", 10, x.size(1));
-        }, "MOST_NUMBERS = 10", "MOST_NUMBERS = 9", "MOST_NUMBERS = 10", "MOST_NUMBERS = 11",
+        },
+            "MOST_NUMBERS = 10", "MOST_NUMBERS = 9",
+            "MOST_NUMBERS = 10", "MOST_NUMBERS = 11",
             "inserted(numbers, numbers.length, v)", "inserted(numbers, 0, v)"));
         all.add(Sentence.terms("1 to 10 MEMBERS, each once, each with a number", c -> {
             KeyStates x = Make.eachKind();
@@ -200,7 +220,9 @@ final class TermSentences {
                 c.is("its number", n + 1, x.get(2, (n + 1) * (n + 1)));
             }
             c.is("the number that was given last", -10, x.get(2, 100));
-        }, "MOST_NUMBERS = 10", "MOST_NUMBERS = 9", "MOST_NUMBERS = 10", "MOST_NUMBERS = 11",
+        },
+            "MOST_NUMBERS = 10", "MOST_NUMBERS = 9",
+            "MOST_NUMBERS = 10", "MOST_NUMBERS = 11",
             "if (old.hasMember(at, member)) {", "if (old.hasMember(at, member) && member == 0) {",
             "inserted(numbers, at, v)", "inserted(numbers, 0, v)"));
         all.add(Sentence.terms("An ENTRY without any number is none.", c -> {
@@ -216,7 +238,8 @@ final class TermSentences {
             c.is("pages with entries", 0, x.told(5));
             c.isFalse("nothing to clear", x.clear(2));
             c.is("nothing to move", 0, x.move(2, LIST, 0));
-        }, "rows[row] = entry.isNone() ? null : entry;", "rows[row] = entry;"));
+        },
+            "rows[row] = entry.isNone() ? null : entry;", "rows[row] = entry;"));
     }
 
     private static void folds(List<Sentence> all) {
@@ -228,8 +251,10 @@ final class TermSentences {
             c.is("the number", 24, x.value(3));
             c.is("how many, more than ten too", 12, x.size(3));
             c.noElement("there is no second number", () -> x.ask(-1, 3, 1, 0, 1));
-        }, "EMPTY, folded + 1)", "EMPTY, 1)", "keep(old.withFolded(now.types[state], v));",
-            "if (old.folded < 10) { keep(old.withFolded(now.types[state], v)); }"));
+        },
+            "EMPTY, folded + 1)", "EMPTY, 1)",
+            "keep(old.withFolded(now.types[state], v));",
+                "if (old.folded < 10) { keep(old.withFolded(now.types[state], v)); }"));
         all.add(Sentence.terms("TYPE 0 their sum (64 bits, going round)", c -> {
             c.is("over the top", Long.MIN_VALUE, folded(0, Long.MAX_VALUE, 1));
             c.is("over the bottom", Long.MAX_VALUE, folded(0, Long.MIN_VALUE, -1));
@@ -243,7 +268,8 @@ final class TermSentences {
             x.add(1, 1);
             x.move(1, FOLD, 0);
             c.is("also when moved", Long.MIN_VALUE, x.value(1));
-        }, "return a + b;", "return b > 0 && a + b < a ? Long.MAX_VALUE : a + b;",
+        },
+            "return a + b;", "return b > 0 && a + b < a ? Long.MAX_VALUE : a + b;",
             "return a + b;", "return b < 0 && a + b > a ? Long.MIN_VALUE : a + b;",
             "return a + b;", "return (int) (a + b);"));
         all.add(Sentence.terms("1 the least", c -> {
@@ -255,7 +281,10 @@ final class TermSentences {
             c.is("the ends", Long.MIN_VALUE, folded(1, Long.MAX_VALUE, Long.MIN_VALUE));
             c.is("the ends, the other way", Long.MIN_VALUE, folded(1, Long.MIN_VALUE, Long.MAX_VALUE));
             c.is("the greatest alone", Long.MAX_VALUE, folded(1, Long.MAX_VALUE));
-        }, "Math.min(a, b)", "Math.max(a, b)", "Math.min(a, b)", "b", "isNone() ? v :", "isNone() ? Math.min(0, v) :",
+        },
+            "Math.min(a, b)", "Math.max(a, b)",
+            "Math.min(a, b)", "b",
+            "isNone() ? v :", "isNone() ? Math.min(0, v) :",
             "Math.min(a, b)", "a - b < 0 ? a : b"));
         all.add(Sentence.terms("2 the greatest.", c -> {
             c.is("the first alone, above 0", 8, folded(2, 8));
@@ -266,7 +295,10 @@ final class TermSentences {
             c.is("the ends", Long.MAX_VALUE, folded(2, Long.MAX_VALUE, Long.MIN_VALUE));
             c.is("the ends, the other way", Long.MAX_VALUE, folded(2, Long.MIN_VALUE, Long.MAX_VALUE));
             c.is("the least alone", Long.MIN_VALUE, folded(2, Long.MIN_VALUE));
-        }, "Math.max(a, b)", "Math.min(a, b)", "Math.max(a, b)", "b", "isNone() ? v :", "isNone() ? Math.max(0, v) :",
+        },
+            "Math.max(a, b)", "Math.min(a, b)",
+            "Math.max(a, b)", "b",
+            "isNone() ? v :", "isNone() ? Math.max(0, v) :",
             "Math.max(a, b)", "a - b > 0 ? a : b"));
     }
 
@@ -290,7 +322,8 @@ final class TermSentences {
             c.badState("then none again", () -> x.put(0, 1));
             x.key(-1);
             c.is("key -1 is one", 1, x.put(0, 1));
-        }, "hasKey = false;\n    private long", "hasKey = true;\n    private long",
+        },
+            "hasKey = false;\n    private long", "hasKey = true;\n    private long",
             "if (!hasKey) {", "if (!hasKey && keyAtHand != 0) {"));
         all.add(Sentence.terms("and a SPAN, at first 0", c -> {
             KeyStates x = Make.eachKind();
@@ -298,7 +331,8 @@ final class TermSentences {
             c.is("what is put at first is of span 0", 6, x.ask(-1, 0, 1, 0, 0));
             c.is("the span that was", 0, x.span(5));
             c.is("it is not of another", 0, x.size(0));
-        }, "spanAtHand = 0;", "spanAtHand = 1;"));
+        },
+            "spanAtHand = 0;", "spanAtHand = 1;"));
         all.add(Sentence.terms("\"the ENTRY\" of a STATE is that of both.", c -> {
             KeyStates x = Make.eachKind();
             x.put(0, 10);
@@ -318,7 +352,8 @@ final class TermSentences {
             x.key(2);
             c.is("key 2, span 1", 21, x.value(0));
             c.is("two are left", 2, x.told(1));
-        }, "now.entryOf(state, keyAtHand, spanAtHand)", "now.entryOf(state, keyAtHand, 0)",
+        },
+            "now.entryOf(state, keyAtHand, spanAtHand)", "now.entryOf(state, keyAtHand, 0)",
             "now.entryOf(state, keyAtHand, spanAtHand)", "now.entryOf(state, 1, spanAtHand)"));
     }
 
@@ -338,9 +373,11 @@ final class TermSentences {
             c.is("h below 0: -31", 1, Make.pageOf(0, -1, 0));
             c.is("h below 0: -961", 15, Make.pageOf(0xffffffffL, 0, 0));
             c.is("h below 0: -496", 0, Make.pageOf(0, -16, 0));
-        }, "& (PAGES - 1)", "& 7", "& (PAGES - 1)", "% PAGES & (PAGES - 2)",
+        },
+            "& (PAGES - 1)", "& 7",
+            "& (PAGES - 1)", "% PAGES & (PAGES - 2)",
             "return ((k * 31 + span) * 31 + state) & (PAGES - 1);",
-            "return Math.abs(((k * 31 + span) * 31 + state) % PAGES);"));
+                "return Math.abs(((k * 31 + span) * 31 + state) % PAGES);"));
         all.add(Sentence.terms("h being (k * 31 + SPAN) * 31 + the STATE's number", c -> {
             c.is("key 1: 961", 1, Make.pageOf(1, 0, 0));
             c.is("key 5: 4805", 5, Make.pageOf(5, 0, 0));
@@ -352,8 +389,13 @@ final class TermSentences {
             c.is("the least span", 0, Make.pageOf(0, LEAST, 0));
             c.is("the greatest span and a key", 3, Make.pageOf(2, MOST, 0));
             c.is("the least span and a state", 6, Make.pageOf(0, LEAST, 6));
-        }, "k * 31 + span", "k * 33 + span", "k * 31 + span", "k * 31 - span", "k * 31 + span", "k * 31",
-            "* 31 + state", "* 33 + state", "* 31 + state", "* 31 - state", "* 31 + state", "* 31"));
+        },
+            "k * 31 + span", "k * 33 + span",
+            "k * 31 + span", "k * 31 - span",
+            "k * 31 + span", "k * 31",
+            "* 31 + state", "* 33 + state",
+            "* 31 + state", "* 31 - state",
+            "* 31 + state", "* 31"));
         all.add(Sentence.terms("k the KEY's lower 32 bits xor its upper ones (all 32 bits, going round).", c -> {
             c.is("upper bits alone", 1, Make.pageOf(1L << 32, 0, 0));
             c.is("upper and lower ones, the same", 0, Make.pageOf((5L << 32) + 5, 0, 0));
@@ -365,7 +407,9 @@ final class TermSentences {
             c.is("the least", 0, Make.pageOf(Long.MIN_VALUE, 0, 0));
             c.is("the greatest", 0, Make.pageOf(Long.MAX_VALUE, 0, 0));
             c.is("the greatest but for the last bit", 1, Make.pageOf(Long.MAX_VALUE - 1, 0, 0));
-        }, "(int) key ^ (int) (key >>> 32)", "(int) key", "(int) key ^ (int) (key >>> 32)", "(int) (key >>> 32)",
+        },
+            "(int) key ^ (int) (key >>> 32)", "(int) key",
+            "(int) key ^ (int) (key >>> 32)", "(int) (key >>> 32)",
             "(int) key ^ (int) (key >>> 32)", "(int) key + (int) (key >>> 32)",
             "(int) key ^ (int) (key >>> 32)", "(int) key | (int) (key >>> 32)",
             "(key >>> 32)", "(key >>> 31)"));
@@ -391,8 +435,11 @@ final class TermSentences {
             x.restore(1);
             c.is("the kind after it", LIST, x.of(0, 1));
             c.is("the type after it", 0, x.of(0, 2));
-        }, "kinds[s] = like.kinds[s];", "", "types[s] = like.types[s];", "",
-            "pages[p].holders++;", "", "copy.rows = rows.clone();", "copy.rows = rows;"));
+        },
+            "kinds[s] = like.kinds[s];", "",
+            "types[s] = like.types[s];", "",
+            "pages[p].holders++;", "",
+            "copy.rows = rows.clone();", "copy.rows = rows;"));
         all.add(Sentence.terms("these PAGES are SHARED with it, as long as it is there", c -> {
             KeyStates x = Make.eachKind();
             c.is("none at first", 0, x.told(3));
@@ -405,8 +452,10 @@ final class TermSentences {
             c.is("none then", 0, x.told(3));
             x.put(0, 1);
             c.is("and nothing is copied", 0, x.told(4));
-        }, "pages[p].holders++;", "if (pages[p].countEntries() > 0) { pages[p].holders++; }",
-            "pages[p].holders--;", "", "pages[p].holders--;", "pages[p].holders = 0;",
+        },
+            "pages[p].holders++;", "if (pages[p].countEntries() > 0) { pages[p].holders++; }",
+            "pages[p].holders--;", "",
+            "pages[p].holders--;", "pages[p].holders = 0;",
             "return holders > 0;", "return holders > 1;"));
         all.add(Sentence.terms("till they change here.", c -> {
             KeyStates x = Make.eachKind();
@@ -419,7 +468,8 @@ final class TermSentences {
             }
             c.is("none is shared with either", 0, x.drop(0));
             c.is("nor with the other", 0, x.drop(1));
-        }, "copy.rows = rows.clone();", "copy.rows = rows.clone(); copy.holders = holders;",
+        },
+            "copy.rows = rows.clone();", "copy.rows = rows.clone(); copy.holders = holders;",
             "copy.rows = rows.clone();", "copy.rows = rows.clone(); copy.holders = holders - 1;",
             "now.pages[p] = page;", ""));
         all.add(Sentence.terms("Restoring shares all PAGES with that SNAPSHOT.", c -> {
@@ -439,9 +489,10 @@ final class TermSentences {
             x.restore(0);
             c.is("restoring again", 16, x.told(3));
             c.is("with that one alone", 0, x.drop(0));
-        }, "pages[p] = other.pages[p];", "pages[p] = other.pages[p].copied();",
+        },
+            "pages[p] = other.pages[p];", "pages[p] = other.pages[p].copied();",
             "pages[p] = other.pages[p];",
-            "if (pages[p] != other.pages[p] && pages[p].countEntries() == 0) { pages[p] = other.pages[p]; }"));
+                "if (pages[p] != other.pages[p] && pages[p].countEntries() == 0) { pages[p] = other.pages[p]; }"));
     }
 
     private static void copies(List<Sentence> all) {
@@ -466,10 +517,11 @@ final class TermSentences {
             c.is("nothing to move", 0, Make.copies(x, () -> x.move(0, FOLD, 0)));
             c.is("a span of two pages", 2, Make.copies(x, () -> x.clearSpan()));
             c.is("a span without entries", 0, Make.copies(x, () -> x.clearSpan()));
-        }, "keep(old.withOnly(v));", "if (old.isNone() || old.numbers[0] != v) { keep(old.withOnly(v)); }",
+        },
+            "keep(old.withOnly(v));", "if (old.isNone() || old.numbers[0] != v) { keep(old.withOnly(v)); }",
             "keep(old.withNumberAt(at, v));", "if (old.numbers[at] != v) { keep(old.withNumberAt(at, v)); }",
             "if (now.pages[p].countEntriesOf(state) > 0) {",
-            "if (now.pages[p].countEntriesOf(state) > 0 && now.kinds[state] != kind) {",
+                "if (now.pages[p].countEntriesOf(state) > 0 && now.kinds[state] != kind) {",
             "if (now.pages[p].countEntriesOf(state) > 0) {", "if (true) {",
             "if (now.pages[p].hasSpan(spanAtHand)) {", "if (true) {"));
         all.add(Sentence.terms("and the PAGE is SHARED with some SNAPSHOT, it is COPIED first", c -> {
@@ -490,9 +542,12 @@ final class TermSentences {
             x.put(0, 4);
             c.is("that is gone", 2, x.told(4));
             c.is("and this is now", 4, x.value(0));
-        }, "if (page.isShared()) {", "if (true) {", "pagesCopied++;", "", "pagesCopied++;",
-            "pagesCopied += holdersBefore;".replace("holdersBefore", "countSnapshots()"),
-            "page = page.copied();", "", "if (page.isShared()) {", "if (snapshots[0] != null && page.isShared()) {"));
+        },
+            "if (page.isShared()) {", "if (true) {",
+            "pagesCopied++;", "",
+            "pagesCopied++;", "pagesCopied += countSnapshots();",
+            "page = page.copied();", "",
+            "if (page.isShared()) {", "if (snapshots[0] != null && page.isShared()) {"));
         all.add(Sentence.terms("and not SHARED then.", c -> {
             KeyStates x = Make.eachKind();
             x.snapshot();
@@ -507,7 +562,9 @@ final class TermSentences {
             c.is("till the next snapshot", 16, x.told(3));
             x.put(0, 3);
             c.is("then it is copied again", 2, x.told(4));
-        }, "copy.rows = rows.clone();", "copy.rows = rows.clone(); copy.holders = holders;", "now.pages[p] = page;", ""));
+        },
+            "copy.rows = rows.clone();", "copy.rows = rows.clone(); copy.holders = holders;",
+            "now.pages[p] = page;", ""));
         all.add(Sentence.terms("BAD is -1, NO -3, FULL -4.", c -> {
             KeyStates x = Make.states(VALUE, 0);
             c.is("BAD as answered", -1, x.told(7));
@@ -519,7 +576,10 @@ final class TermSentences {
             c.is("BAD", -1, constant("BAD"));
             c.is("NO", -3, constant("NO"));
             c.is("FULL", -4, constant("FULL"));
-        }, "BAD = -1", "BAD = -2", "NO = -3", "NO = -2", "FULL = -4", "FULL = -2"));
+        },
+            "BAD = -1", "BAD = -2",
+            "NO = -3", "NO = -2",
+            "FULL = -4", "FULL = -2"));
     }
 
     /** By its name: a constant that a test names itself stays in it as it was compiled. */

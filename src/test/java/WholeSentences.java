@@ -52,12 +52,14 @@ final class WholeSentences {
             c.is("nor a page", 0, x.told(5));
             c.is("the states stay", 4, x.told(0));
             c.is("the span stays", 0, x.span(0));
-        }, "if (rows[r] != null && rows[r].span == span) { rows[r] = null;", "if (rows[r] != null) { rows[r] = null;",
+        },
             "if (rows[r] != null && rows[r].span == span) { rows[r] = null;",
-            "if (rows[r] != null && rows[r].span == span && rows[r].state == 0) { rows[r] = null;",
+                "if (rows[r] != null) { rows[r] = null;",
+            "if (rows[r] != null && rows[r].span == span) { rows[r] = null;",
+                "if (rows[r] != null && rows[r].span == span && rows[r].state == 0) { rows[r] = null;",
             "p < PAGES; p++) { if (now.pages[p].hasSpan", "p < PAGES - 1; p++) { if (now.pages[p].hasSpan",
             "cleared += pageToChange(p).loseSpan(spanAtHand);",
-            "if (hasKey) { cleared += pageToChange(p).loseSpan(spanAtHand); }"));
+                "if (hasKey) { cleared += pageToChange(p).loseSpan(spanAtHand); }"));
         all.add(Sentence.promise(17, "how many.", c -> {
             KeyStates x = Make.with(150);
             c.is("150", 150, x.clearSpan());
@@ -73,7 +75,10 @@ final class WholeSentences {
             c.is("none in another span", 0, x.clearSpan());
             x.span(0);
             c.is("entries, not numbers", 4, x.clearSpan());
-        }, "lost++;", "lost += 2;", "return cleared;", "return Math.min(cleared, 100);", "lost++;", "lost = 1;"));
+        },
+            "lost++;", "lost += 2;",
+            "return cleared;", "return Math.min(cleared, 100);",
+            "lost++;", "lost = 1;"));
     }
 
     private static void keysAndKeyAt(List<Sentence> all) {
@@ -99,7 +104,8 @@ final class WholeSentences {
             KeyStates y = Make.with(150);
             c.is("150", 150, y.keys(0));
             c.is("none of another state", 0, y.keys(3));
-        }, "rows[r].state == state && rows[r].span == span) { int at", "rows[r].state == state) { int at",
+        },
+            "rows[r].state == state && rows[r].span == span) { int at", "rows[r].state == state) { int at",
             "rows[r].state == state && rows[r].span == span) { int at", "rows[r].span == span) { int at",
             "return sortKeys(state);", "return Math.min(149, sortKeys(state));",
             "return sortKeys(state);", "return now.countEntriesOf(state);"));
@@ -129,7 +135,10 @@ final class WholeSentences {
             c.is("the least of 150", -148, y.keyAt(0, 0));
             c.is("the middle", 0, y.keyAt(0, 74));
             c.is("the greatest", 149, y.keyAt(0, 149));
-        }, "row[at] < x) {", "row[at] - x < 0) {", "row[at] < x) {", "false) {", "return risingKeys[i];", "return (int) risingKeys[i];",
+        },
+            "row[at] < x) {", "row[at] - x < 0) {",
+            "row[at] < x) {", "false) {",
+            "return risingKeys[i];", "return (int) risingKeys[i];",
             "r < rows.length && sorted < rising.length; r++", "r < rows.length && sorted + 1 < rising.length; r++"));
         all.add(Sentence.promise(19, "IndexOutOfBoundsException: also none such.", c -> {
             KeyStates x = Make.eachKind();
@@ -143,7 +152,9 @@ final class WholeSentences {
             x.span(1);
             c.outOfBounds("another span has none", () -> x.keyAt(0, 0));
             c.outOfBounds("no such state", () -> x.keyAt(4, 0));
-        }, "if (i < 0 || i >= count) {", "if (i >= count) {", "if (i < 0 || i >= count) {", "if (i < 0 || i > count) {",
+        },
+            "if (i < 0 || i >= count) {", "if (i >= count) {",
+            "if (i < 0 || i >= count) {", "if (i < 0 || i > count) {",
             "if (i < 0 || i >= count) {", "if (i < 0 || i >= MOST_ENTRIES) {",
             "throw new IndexOutOfBoundsException(\"no such key\");", "throw new NoSuchElementException();"));
     }
@@ -161,7 +172,9 @@ final class WholeSentences {
             c.noElement("not what came later", () -> x.ask(s, 0, 2, 0, 0));
             c.is("one entry", 1, x.entries(s, 0));
             c.is("now there are two", 2, x.entries(-1, 0));
-        }, "snapshots[slot] = picture;", "", "pages[p].holders++;", ""));
+        },
+            "snapshots[slot] = picture;", "",
+            "pages[p].holders++;", ""));
         all.add(Sentence.promise(20, "its number (they are numbered as they are taken)", c -> {
             KeyStates x = Make.eachKind();
             for (int n = 0; n < 4; n++) {
@@ -178,7 +191,10 @@ final class WholeSentences {
                 x.drop(n - 1);
                 c.is("and so on", n, x.snapshot());
             }
-        }, "now.taken(snapshotsTaken)", "now.taken(slot)", "now.taken(snapshotsTaken)", "now.taken(countSnapshots())", "snapshotsTaken++;", ""));
+        },
+            "now.taken(snapshotsTaken)", "now.taken(slot)",
+            "now.taken(snapshotsTaken)", "now.taken(countSnapshots())",
+            "snapshotsTaken++;", ""));
         all.add(Sentence.promise(20, "FULL: 6 are there.", c -> {
             KeyStates x = Make.eachKind();
             for (int n = 0; n < 5; n++) {
@@ -192,8 +208,11 @@ final class WholeSentences {
             c.is("but for one", FULL, x.snapshot());
             x.restore(0);
             c.is("restoring makes no room", FULL, x.snapshot());
-        }, "MOST_SNAPSHOTS = 6", "MOST_SNAPSHOTS = 5", "MOST_SNAPSHOTS = 6", "MOST_SNAPSHOTS = 7",
-            "return FULL; } public int drop", "return NO; } public int drop", "return FULL; } public int drop", "snapshotsTaken++; return FULL; } public int drop"));
+        },
+            "MOST_SNAPSHOTS = 6", "MOST_SNAPSHOTS = 5",
+            "MOST_SNAPSHOTS = 6", "MOST_SNAPSHOTS = 7",
+            "return FULL; } public int drop", "return NO; } public int drop",
+            "return FULL; } public int drop", "snapshotsTaken++; return FULL; } public int drop"));
         all.add(Sentence.promise(21, "A SNAPSHOT goes", c -> {
             KeyStates x = Make.eachKind();
             x.put(0, 5);
@@ -212,7 +231,8 @@ final class WholeSentences {
             }
             c.is("the other stays", 6, x.ask(1, 0, 1, 0, 0));
             c.is("what is now stays", 7, x.value(0));
-        }, "snapshots[slot] = null; return now", "return now",
+        },
+            "snapshots[slot] = null; return now", "return now",
             "snapshots[slot] = null; return now", "snapshots[0] = null; snapshots[1] = null; return now",
             "throw new IndexOutOfBoundsException(\"no such snapshot\");", "return now;"));
         all.add(Sentence.promise(21, "how many PAGES are SHARED then.", c -> {
@@ -232,9 +252,11 @@ final class WholeSentences {
             c.is("the last has all but one", 15, x.drop(2));
             c.is("the one before has all but two", 14, x.drop(4));
             c.is("none is left", 0, x.drop(3));
-        }, "return now.countShared(); } public long ask", "return PAGES - now.countShared(); } public long ask",
-            "snapshotIn(slot).releasePages();", "", "int slot = slotOf(snapshot); snapshotIn(slot).releasePages(); snapshots[slot] = null; return now.countShared();",
-            "int slot = slotOf(snapshot); int shared = now.countShared(); snapshotIn(slot).releasePages(); snapshots[slot] = null; return shared;",
+        },
+            "return now.countShared(); } public long ask", "return PAGES - now.countShared(); } public long ask",
+            "snapshotIn(slot).releasePages();", "",
+            "int slot = slotOf(snapshot); snapshotIn(slot).releasePages(); snapshots[slot] = null; return now.countShared();",
+                "int slot = slotOf(snapshot); int shared = now.countShared(); snapshotIn(slot).releasePages(); snapshots[slot] = null; return shared;",
             "pages[p].holders--;", "pages[p].holders = 0;"));
     }
 
@@ -269,8 +291,11 @@ final class WholeSentences {
             }
             c.is("the tenth of a list", 0, y.ask(-1, 1, 1, 0, 9));
             c.is("the tenth of a map", -9, y.ask(-1, 2, 1, 0, 9));
-        }, "return numbers[i];", "return numbers[0];", "row[at] < x) {", "row[at] > x) {",
-            "Picture picture = pictureOf(snapshot); needState(state); long[]", "Picture picture = pictureOf(snapshot); needState(state); needKey(); long[]"));
+        },
+            "return numbers[i];", "return numbers[0];",
+            "row[at] < x) {", "row[at] > x) {",
+            "Picture picture = pictureOf(snapshot); needState(state); long[]",
+                "Picture picture = pictureOf(snapshot); needState(state); needKey(); long[]"));
         all.add(Sentence.promise(22, "of an ENTRY as a SNAPSHOT has it (-1: as it is now).", c -> {
             KeyStates x = oneEntryOfEachKind();
             x.snapshot();
@@ -292,8 +317,10 @@ final class WholeSentences {
             c.is("now", 12, x.ask(-1, 0, 1, 3, 0));
             x.move(0, LIST, 0);
             c.is("then, though it was moved since", 10, x.ask(0, 0, 1, 3, 0));
-        }, "return snapshot == NOW ? now : snapshotIn(slotOf(snapshot));", "return now;",
-            "return snapshot == NOW ? now : snapshotIn(slotOf(snapshot));", "return snapshot == NOW ? now : snapshotIn(0);",
+        },
+            "return snapshot == NOW ? now : snapshotIn(slotOf(snapshot));", "return now;",
+            "return snapshot == NOW ? now : snapshotIn(slotOf(snapshot));",
+                "return snapshot == NOW ? now : snapshotIn(0);",
             "pages[p].holders++;", ""));
         all.add(Sentence.promise(22, "NoSuchElementException: there is no such ENTRY, number.", c -> {
             KeyStates x = oneEntryOfEachKind();
@@ -315,11 +342,14 @@ final class WholeSentences {
             c.outOfBounds("no such state", () -> x.ask(0, 5, 1, 3, 0));
             c.outOfBounds("no such snapshot", () -> x.ask(1, 0, 1, 3, 0));
             c.outOfBounds("snapshot -2", () -> x.ask(-2, 0, 1, 3, 0));
-        }, "if (i < 0 || i >= numbers.length) {", "if (i >= numbers.length) {",
+        },
+            "if (i < 0 || i >= numbers.length) {", "if (i >= numbers.length) {",
             "if (i < 0 || i >= numbers.length) {", "if (i < 0 || i > numbers.length) {",
-            "throw new NoSuchElementException(\"no such entry or number\");", "throw new IndexOutOfBoundsException();",
+            "throw new NoSuchElementException(\"no such entry or number\");",
+                "throw new IndexOutOfBoundsException();",
             "throw new NoSuchElementException(\"no such entry or number\");", "return 0;",
-            "needState(state); long[] numbers", "if (state < 0 || state >= picture.stateCount) { throw new IndexOutOfBoundsException(); } long[] numbers"));
+            "needState(state); long[] numbers",
+                "if (state < 0 || state >= picture.stateCount) { throw new IndexOutOfBoundsException(); } long[] numbers"));
     }
 
     private static void entries(List<Sentence> all) {
@@ -347,10 +377,11 @@ final class WholeSentences {
             y.clearSpan();
             c.is("150", 150, y.entries(0, 0));
             c.is("none of another", 0, y.entries(0, 1));
-        }, "return picture.countEntriesOf(state);", "return now.countEntriesOf(state);",
+        },
+            "return picture.countEntriesOf(state);", "return now.countEntriesOf(state);",
             "return picture.countEntriesOf(state);", "return picture.countEntries();",
             "needState(state); return picture.countEntriesOf(state);",
-            "if (state < 0 || state >= picture.stateCount) { throw new IndexOutOfBoundsException(); } return picture.countEntriesOf(state);"));
+                "if (state < 0 || state >= picture.stateCount) { throw new IndexOutOfBoundsException(); } return picture.countEntriesOf(state);"));
         all.add(Sentence.promise(23, "(-1: there are now).", c -> {
             KeyStates x = Make.eachKind();
             c.is("none", 0, x.entries(-1, 0));
@@ -367,9 +398,10 @@ final class WholeSentences {
             c.outOfBounds("state -1", () -> x.entries(-1, -1));
             KeyStates y = Make.with(150);
             c.is("150", 150, y.entries(-1, 0));
-        }, "return snapshot == NOW ? now : snapshotIn(slotOf(snapshot));", "return snapshotIn(slotOf(snapshot));",
+        },
+            "return snapshot == NOW ? now : snapshotIn(slotOf(snapshot));", "return snapshotIn(slotOf(snapshot));",
             "return snapshot == NOW ? now : snapshotIn(slotOf(snapshot));",
-            "return snapshot == NOW && countSnapshots() == 0 ? now : snapshotIn(Math.max(0, slotOf(snapshot)));"));
+                "return snapshot == NOW && countSnapshots() == 0 ? now : snapshotIn(Math.max(0, slotOf(snapshot)));"));
     }
 
     private static void restore(List<Sentence> all) {
@@ -399,7 +431,9 @@ final class WholeSentences {
             for (int wrong : new int[] {-1, 2, LEAST, MOST}) {
                 c.outOfBounds("restoring " + wrong, () -> x.restore(wrong));
             }
-        }, "now.becomeLike(snapshotIn(slotOf(snapshot)));", "", "pages[p] = other.pages[p];", "if (other.pages[p].countEntries() > 0) { pages[p] = other.pages[p]; }",
+        },
+            "now.becomeLike(snapshotIn(slotOf(snapshot)));", "",
+            "pages[p] = other.pages[p];", "if (other.pages[p].countEntries() > 0) { pages[p] = other.pages[p]; }",
             "now.becomeLike(snapshotIn(slotOf(snapshot)));", "now.becomeLike(snapshotIn(0));",
             "now.becomeLike(snapshotIn(slotOf(snapshot)));", "now.becomeLike(pictureOf(snapshot));"));
         all.add(Sentence.promise(24, "(KINDS and TYPES, too, of the STATES that there were", c -> {
@@ -421,7 +455,9 @@ final class WholeSentences {
             c.is("not as it was later", NO, x.state(100, FOLD, 2));
             c.is("one told later keeps its kind", LIST, x.of(2, 1));
             c.is("and its type", 2, x.of(2, 2));
-        }, "kinds[s] = other.kinds[s];", "", "types[s] = other.types[s];", "",
+        },
+            "kinds[s] = other.kinds[s];", "",
+            "types[s] = other.types[s];", "",
             "s < other.stateCount; s++", "s < MOST_STATES; s++"));
         all.add(Sentence.promise(24, "those told later have no ENTRIES)", c -> {
             KeyStates x = Make.states(VALUE, 0);
@@ -448,8 +484,10 @@ final class WholeSentences {
             y.restore(0);
             y.restore(1);
             c.is("but in a later snapshot they have", 3, y.value(1));
-        }, "pages[p] = other.pages[p];", "if (pages[p].countEntriesOf(1) == 0) { pages[p] = other.pages[p]; }",
-            "for (int s = 0; s < other.stateCount; s++)", "stateCount = other.stateCount; for (int s = 0; s < other.stateCount; s++)"));
+        },
+            "pages[p] = other.pages[p];", "if (pages[p].countEntriesOf(1) == 0) { pages[p] = other.pages[p]; }",
+            "for (int s = 0; s < other.stateCount; s++)",
+                "stateCount = other.stateCount; for (int s = 0; s < other.stateCount; s++)"));
         all.add(Sentence.promise(24, "how many.", c -> {
             KeyStates x = Make.eachKind();
             x.snapshot();
@@ -465,9 +503,11 @@ final class WholeSentences {
             x.add(1, 1);
             x.snapshot();
             c.is("entries, not numbers", 1, x.restore(2));
-        }, "(slotOf(snapshot))); return now.countEntries();", "(slotOf(snapshot))); return now.countNumbers();",
+        },
+            "(slotOf(snapshot))); return now.countEntries();", "(slotOf(snapshot))); return now.countNumbers();",
             "(slotOf(snapshot))); return now.countEntries();", "(slotOf(snapshot))); return now.countEntriesOf(1);",
-            "(slotOf(snapshot))); return now.countEntries();", "(slotOf(snapshot))); return Math.min(149, now.countEntries());"));
+            "(slotOf(snapshot))); return now.countEntries();",
+                "(slotOf(snapshot))); return Math.min(149, now.countEntries());"));
         all.add(Sentence.promise(24, "What is at hand, the SNAPSHOTS stay.", c -> {
             KeyStates x = Make.eachKind();
             x.snapshot();
@@ -487,10 +527,15 @@ final class WholeSentences {
             c.is("the snapshots", 3, x.told(2));
             c.is("the later one too", 1, x.ask(2, 0, 8, -4, 0));
             c.is("the next one's number", 3, x.snapshot());
-        }, "now.becomeLike(snapshotIn(slotOf(snapshot)));", "now.becomeLike(snapshotIn(slotOf(snapshot))); hasKey = false;",
-            "now.becomeLike(snapshotIn(slotOf(snapshot)));", "now.becomeLike(snapshotIn(slotOf(snapshot))); hasKey = true;",
-            "now.becomeLike(snapshotIn(slotOf(snapshot)));", "now.becomeLike(snapshotIn(slotOf(snapshot))); spanAtHand = 0;",
-            "now.becomeLike(snapshotIn(slotOf(snapshot)));", "now.becomeLike(snapshotIn(slotOf(snapshot))); snapshots[2] = null;"));
+        },
+            "now.becomeLike(snapshotIn(slotOf(snapshot)));",
+                "now.becomeLike(snapshotIn(slotOf(snapshot))); hasKey = false;",
+            "now.becomeLike(snapshotIn(slotOf(snapshot)));",
+                "now.becomeLike(snapshotIn(slotOf(snapshot))); hasKey = true;",
+            "now.becomeLike(snapshotIn(slotOf(snapshot)));",
+                "now.becomeLike(snapshotIn(slotOf(snapshot))); spanAtHand = 0;",
+            "now.becomeLike(snapshotIn(slotOf(snapshot)));",
+                "now.becomeLike(snapshotIn(slotOf(snapshot))); snapshots[2] = null;"));
     }
 
     private static void move(List<Sentence> all) {
@@ -511,8 +556,11 @@ final class WholeSentences {
             c.is("also when these are folded", 2, y.move(1, FOLD, 0));
             c.outOfBounds("no such state", () -> y.move(4, 0, 0));
             c.outOfBounds("state -1", () -> y.move(-1, 0, 0));
-        }, "moved++;", "moved = 1;", "return moved; } public int of", "return Math.min(100, moved); } public int of",
-            "moved++;", "moved += rows[r].numbers.length;", "now.kinds[state] = kind;", "if (moved > 0) { now.kinds[state] = kind; }"));
+        },
+            "moved++;", "moved = 1;",
+            "return moved; } public int of", "return Math.min(100, moved); } public int of",
+            "moved++;", "moved += rows[r].numbers.length;",
+            "now.kinds[state] = kind;", "if (moved > 0) { now.kinds[state] = kind; }"));
         all.add(Sentence.promise(25, "BAD: no such KIND, TYPE", c -> {
             KeyStates x = Make.states(VALUE, 1, FOLD, 1);
             x.put(0, 5);
@@ -527,9 +575,13 @@ final class WholeSentences {
             c.is("the kind stays", VALUE, x.of(0, 1));
             c.is("the type stays", 1, x.of(0, 2));
             c.is("the number stays", 5, x.value(0));
-        }, "KINDS = 4", "KINDS = 5", "TYPES = 3", "TYPES = 4", "kind >= 0 &&", "kind >= -1 &&", "type >= 0 &&", "type >= -1 &&",
+        },
+            "KINDS = 4", "KINDS = 5",
+            "TYPES = 3", "TYPES = 4",
+            "kind >= 0 &&", "kind >= -1 &&",
+            "type >= 0 &&", "type >= -1 &&",
             "needState(state); if (!isKindAndType(kind, type)) { return BAD; }",
-            "needState(state); if (!canMove(now.kinds[state], kind)) { return NO; } if (!isKindAndType(kind, type)) { return BAD; }"));
+                "needState(state); if (!canMove(now.kinds[state], kind)) { return NO; } if (!isKindAndType(kind, type)) { return BAD; }"));
         all.add(Sentence.promise(25, "NO.", c -> {
             KeyStates x = oneEntryOfEachKind();
             c.is("a kind it can't be moved to", NO, x.move(0, MAP, 0));
@@ -543,8 +595,11 @@ final class WholeSentences {
             c.is("the type stays", 0, x.of(0, 2));
             x.put(0, 0);
             c.is("one that does", 1, x.move(0, VALUE, 2));
-        }, "return NO; } int moved", "return BAD; } int moved", "return NO; } int moved", "return 0; } int moved",
-            "!canMove(now.kinds[state], kind) ||", "", "|| !now.allFit(state, kind, type)", ""));
+        },
+            "return NO; } int moved", "return BAD; } int moved",
+            "return NO; } int moved", "return 0; } int moved",
+            "!canMove(now.kinds[state], kind) ||", "",
+            "|| !now.allFit(state, kind, type)", ""));
     }
 
     private static void of(List<Sentence> all) {
@@ -563,8 +618,11 @@ final class WholeSentences {
             c.is("the name after a move", MOST, x.of(1, 0));
             c.is("the kind then", LIST, x.of(1, 1));
             c.is("the type then", 1, x.of(1, 2));
-        }, "return names[state];", "return state;", "return now.kinds[state];", "return now.types[state];",
-            "return now.types[state];", "return now.kinds[state];", "return names[state];", "return names[0];"));
+        },
+            "return names[state];", "return state;",
+            "return now.kinds[state];", "return now.types[state];",
+            "return now.types[state];", "return now.kinds[state];",
+            "return names[state];", "return names[0];"));
         all.add(Sentence.promise(26, "IndexOutOfBoundsException: also another what.", c -> {
             KeyStates x = Make.eachKind();
             for (int what : new int[] {3, -1, 4, LEAST, MOST}) {
@@ -573,10 +631,12 @@ final class WholeSentences {
             for (int state : new int[] {4, -1, 8, LEAST, MOST}) {
                 c.outOfBounds("state " + state, () -> x.of(state, 0));
             }
-        }, "throw new IndexOutOfBoundsException(\"no such thing of a state\");", "return BAD;",
-            "throw new IndexOutOfBoundsException(\"no such thing of a state\");", "throw new IllegalArgumentException();",
+        },
+            "throw new IndexOutOfBoundsException(\"no such thing of a state\");", "return BAD;",
+            "throw new IndexOutOfBoundsException(\"no such thing of a state\");",
+                "throw new IllegalArgumentException();",
             "default: throw new IndexOutOfBoundsException(\"no such thing of a state\");",
-            "case 3: return 0; default: throw new IndexOutOfBoundsException(\"no such thing of a state\");"));
+                "case 3: return 0; default: throw new IndexOutOfBoundsException(\"no such thing of a state\");"));
     }
 
     private static void told(List<Sentence> all) {
@@ -595,7 +655,9 @@ final class WholeSentences {
             y.state(1, VALUE, 0);
             y.restore(0);
             c.is("restoring takes none away", 1, y.told(0));
-        }, "return now.stateCount;", "return MOST_STATES;", "return now.stateCount;", "return Math.min(7, now.stateCount);"));
+        },
+            "return now.stateCount;", "return MOST_STATES;",
+            "return now.stateCount;", "return Math.min(7, now.stateCount);"));
         all.add(Sentence.promise(27, "1 ENTRIES", c -> {
             KeyStates x = oneEntryOfEachKind();
             c.is("one of each kind", 4, x.told(1));
@@ -607,7 +669,8 @@ final class WholeSentences {
             KeyStates y = Make.with(150);
             y.put(0, 1);
             c.is("150 at most", 150, y.told(1));
-        }, "return now.countEntries(); case 2", "return now.countNumbers(); case 2",
+        },
+            "return now.countEntries(); case 2", "return now.countNumbers(); case 2",
             "return now.countEntries(); case 2", "return now.countEntriesOf(0); case 2"));
         all.add(Sentence.promise(27, "2 SNAPSHOTS that are there", c -> {
             KeyStates x = Make.eachKind();
@@ -623,7 +686,9 @@ final class WholeSentences {
             c.is("restoring leaves them", 4, x.told(2));
             x.snapshot();
             c.is("one more", 5, x.told(2));
-        }, "return countSnapshots();", "return snapshotsTaken;", "return countSnapshots();", "return Math.min(5, countSnapshots());"));
+        },
+            "return countSnapshots();", "return snapshotsTaken;",
+            "return countSnapshots();", "return Math.min(5, countSnapshots());"));
         all.add(Sentence.promise(27, "3 PAGES that are SHARED", c -> {
             KeyStates x = Make.eachKind();
             c.is("none", 0, x.told(3));
@@ -640,7 +705,8 @@ final class WholeSentences {
             x.drop(1);
             x.drop(2);
             c.is("none again", 0, x.told(3));
-        }, "return now.countShared(); case 4", "return countSnapshots() > 0 ? PAGES : 0; case 4",
+        },
+            "return now.countShared(); case 4", "return countSnapshots() > 0 ? PAGES : 0; case 4",
             "return now.countShared(); case 4", "return PAGES - now.countShared(); case 4"));
         all.add(Sentence.promise(27, "4 how often one was COPIED", c -> {
             KeyStates x = Make.eachKind();
@@ -659,8 +725,11 @@ final class WholeSentences {
             c.is("all sixteen", 36, x.told(4));
             x.restore(20);
             c.is("restoring copies none", 36, x.told(4));
-        }, "return pagesCopied;", "return Math.min(16, pagesCopied);", "pagesCopied++;", "pagesCopied = 1;",
-            "now.becomeLike(snapshotIn(slotOf(snapshot)));", "now.becomeLike(snapshotIn(slotOf(snapshot))); pagesCopied++;"));
+        },
+            "return pagesCopied;", "return Math.min(16, pagesCopied);",
+            "pagesCopied++;", "pagesCopied = 1;",
+            "now.becomeLike(snapshotIn(slotOf(snapshot)));",
+                "now.becomeLike(snapshotIn(slotOf(snapshot))); pagesCopied++;"));
         all.add(Sentence.promise(27, "5 PAGES with ENTRIES", c -> {
             KeyStates x = Make.eachKind();
             c.is("none", 0, x.told(5));
@@ -677,7 +746,9 @@ final class WholeSentences {
             x.snapshot();
             x.clearSpan();
             c.is("none, whatever a snapshot has", 0, x.told(5));
-        }, "return now.countPagesInUse();", "return PAGES;", "return now.countPagesInUse();", "return Math.min(15, now.countPagesInUse());",
+        },
+            "return now.countPagesInUse();", "return PAGES;",
+            "return now.countPagesInUse();", "return Math.min(15, now.countPagesInUse());",
             "if (pages[p].countEntries() > 0) {", "if (pages[p].countEntries() > 1) {"));
         all.add(Sentence.promise(27, "6 numbers of all ENTRIES together (FOLD: one each).", c -> {
             KeyStates x = oneEntryOfEachKind();
@@ -698,16 +769,21 @@ final class WholeSentences {
                 y.add(1, n);
             }
             c.is("twenty lists of ten", 200, y.told(6));
-        }, "count += rows[r].numbers.length;", "count += rows[r].folded > 0 ? rows[r].folded : rows[r].numbers.length;",
-            "count += rows[r].numbers.length;", "count++;", "return now.countNumbers();", "return Math.min(150, now.countNumbers());"));
+        },
+            "count += rows[r].numbers.length;",
+                "count += rows[r].folded > 0 ? rows[r].folded : rows[r].numbers.length;",
+            "count += rows[r].numbers.length;", "count++;",
+            "return now.countNumbers();", "return Math.min(150, now.countNumbers());"));
         all.add(Sentence.promise(27, "BAD: another what.", c -> {
             KeyStates x = Make.eachKind();
             for (int what : new int[] {7, -1, 8, LEAST, MOST}) {
                 c.is("what " + what, BAD, x.told(what));
             }
-        }, "return now.countNumbers(); default: return BAD;", "return now.countNumbers(); default: return 0;",
-            "return now.countNumbers(); default: return BAD;", "return now.countNumbers(); case 7: return 0; default: return BAD;",
+        },
+            "return now.countNumbers(); default: return BAD;", "return now.countNumbers(); default: return 0;",
             "return now.countNumbers(); default: return BAD;",
-            "return now.countNumbers(); default: throw new IndexOutOfBoundsException();"));
+                "return now.countNumbers(); case 7: return 0; default: return BAD;",
+            "return now.countNumbers(); default: return BAD;",
+                "return now.countNumbers(); default: throw new IndexOutOfBoundsException();"));
     }
 }
