@@ -1,5 +1,4 @@
 import java.lang.reflect.InvocationTargetException;
-import java.net.URI;
 import java.net.URL;
 import java.net.URLClassLoader;
 import java.nio.file.Files;
@@ -10,11 +9,7 @@ import java.util.List;
 import java.util.regex.Matcher;
 import java.util.regex.Pattern;
 import java.util.stream.Stream;
-import javax.tools.JavaCompiler;
-import javax.tools.JavaFileObject;
-import javax.tools.SimpleJavaFileObject;
 import javax.tools.StandardJavaFileManager;
-import javax.tools.ToolProvider;
 
 /**
  * Breaks the class, one place at a time, and looks whether the test of the sentence that is broken so fails.
@@ -22,7 +17,6 @@ import javax.tools.ToolProvider;
  */
 public final class BreakTest {
     private static final Check check = new Check();
-    private static final JavaCompiler compiler = ToolProvider.getSystemJavaCompiler();
 
     private BreakTest() {
     }
@@ -31,7 +25,7 @@ public final class BreakTest {
         String source = Files.readString(Path.of(args.length > 0 ? args[0] : "src/main/java/KeyStates.java"));
         Path room = Files.createTempDirectory("broken");
         int broken = 0;
-        try (StandardJavaFileManager files = compiler.getStandardFileManager(null, null, null)) {
+        try (StandardJavaFileManager files = Compile.files()) {
             for (Sentence s : SentenceTest.all()) {
                 check.yes(s.id() + " has a break", s.breaks().length >= 2 && s.breaks().length % 2 == 0);
                 for (int b = 0; b + 1 < s.breaks().length; b += 2) {
@@ -40,7 +34,7 @@ public final class BreakTest {
                     String what = s.id() + " broken by: " + s.breaks()[b + 1] + " for: " + s.breaks()[b];
                     if (changed == null) {
                         check.judge(what, "the piece is not there once", "it is");
-                    } else if (!compiles(files, changed, dir)) {
+                    } else if (!Compile.into(dir, files, "KeyStates", changed)) {
                         check.judge(what, "it does not compile", "it does");
                     } else {
                         check.yes(what + " is seen", !holds(dir, s.id()));
@@ -67,17 +61,6 @@ public final class BreakTest {
         int start = m.start();
         int end = m.end();
         return m.find() ? null : source.substring(0, start) + instead + source.substring(end);
-    }
-
-    private static boolean compiles(StandardJavaFileManager files, String source, Path dir) {
-        JavaFileObject file = new SimpleJavaFileObject(URI.create("string:///KeyStates.java"), JavaFileObject.Kind.SOURCE) {
-            @Override
-            public CharSequence getCharContent(boolean ignoreErrors) {
-                return source;
-            }
-        };
-        List<String> options = List.of("-d", dir.toString(), "-nowarn", "-proc:none");
-        return compiler.getTask(null, files, null, options, null, List.of(file)).call();
     }
 
     /** The tests are loaded anew beside the broken class, which stands before the right one. */

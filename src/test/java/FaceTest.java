@@ -1,38 +1,34 @@
 import java.lang.reflect.Field;
 import java.lang.reflect.Method;
 import java.lang.reflect.Modifier;
-import java.util.Arrays;
+import java.nio.file.Files;
+import java.nio.file.Path;
+import java.util.TreeMap;
 import java.util.TreeSet;
+import java.util.regex.Matcher;
+import java.util.regex.Pattern;
 
-/** The public face is the document's, and nothing else of the class can be seen. */
+/** The public face is the one that the document writes out, and nothing else of the class can be seen. */
 public final class FaceTest {
     private static final Check check = new Check();
-    private static final String I = "IndexOutOfBoundsException", A = "IllegalArgumentException";
-    private static final String S = "IllegalStateException", N = "NoSuchElementException";
-    private static final String[] METHODS = {
-        "int state(int,int,int)", "void key(long)", "boolean leave()", "int span(int)",
-        "int put(int,long) " + I + " " + A + " " + S,
-        "long value(int) " + I + " " + A + " " + S + " " + N,
-        "int add(int,long) " + I + " " + A + " " + S,
-        "long item(int,int) " + I + " " + A + " " + S,
-        "int set(int,long,long) " + I + " " + A + " " + S,
-        "long get(int,long) " + I + " " + A + " " + S + " " + N,
-        "long member(int,int) " + I + " " + A + " " + S,
-        "boolean remove(int,long) " + I + " " + A + " " + S,
-        "int fold(int,long) " + I + " " + A + " " + S,
-        "int size(int) " + I + " " + S, "boolean clear(int) " + I + " " + S,
-        "int clearSpan()", "int keys(int) " + I, "long keyAt(int,int) " + I,
-        "int snapshot()", "int drop(int) " + I, "long ask(int,int,long,int,int) " + I + " " + N,
-        "int entries(int,int) " + I, "int restore(int) " + I,
-        "int move(int,int,int) " + I, "int of(int,int) " + I, "int told(int)"};
+    private static final Path DOCUMENT = Path.of("../shared/DOC.md");
+    private static final Pattern FACE = Pattern.compile("(?s)## The public face\\s+```java\\n(.*?)```");
+    private static final Pattern METHOD = Pattern.compile("public (\\w+ \\w+)\\((.*?)\\)(?: throws (.*?))?;");
+    private static final Pattern CONSTANT = Pattern.compile("(\\w+) = (-?\\d+)");
+    private static final int METHODS = 26;
 
-    public static void main(String[] args) {
+    private FaceTest() {
+    }
+
+    public static void main(String[] args) throws Exception {
         Class<KeyStates> c = KeyStates.class;
+        Matcher face = FACE.matcher(Files.readString(DOCUMENT));
+        check.yes("the document has a face", face.find());
         check.yes("public and final", c.getModifiers() == (Modifier.PUBLIC | Modifier.FINAL));
         check.yes("one public constructor", c.getDeclaredConstructors().length == 1
                 && c.getConstructors().length == 1 && c.getConstructors()[0].getParameterCount() == 0);
-        methods(c);
-        fields(c);
+        methods(c, face.group(1));
+        fields(c, face.group(1));
         for (Class<?> inside : c.getDeclaredClasses()) {
             check.yes(inside + " is static and not public",
                     Modifier.isStatic(inside.getModifiers()) && !Modifier.isPublic(inside.getModifiers()));
@@ -40,20 +36,28 @@ public final class FaceTest {
         check.end();
     }
 
-    private static void methods(Class<?> c) {
+    private static void methods(Class<?> c, String face) {
+        TreeSet<String> due = new TreeSet<>();
+        Matcher m = METHOD.matcher(face);
+        while (m.find()) {
+            String types = m.group(2).replace(", ", ",").replaceAll(" \\w+", "");
+            due.add(m.group(1) + "(" + types + ")" + (m.group(3) == null ? "" : " " + m.group(3).replace(",", "")));
+        }
+        check.is("methods of the document", METHODS, due.size());
         TreeSet<String> seen = new TreeSet<>();
         TreeSet<String> names = new TreeSet<>();
-        for (Method m : c.getDeclaredMethods()) {
-            if (Modifier.isPublic(m.getModifiers())) {
-                seen.add(told(m));
-                names.add(m.getName());
+        for (Method method : c.getDeclaredMethods()) {
+            if (Modifier.isPublic(method.getModifiers())) {
+                seen.add(told(method));
+                names.add(method.getName());
+                check.yes(method + " is of an object", !Modifier.isStatic(method.getModifiers()));
             }
         }
-        check.judge("the public methods", seen.toString(), new TreeSet<>(Arrays.asList(METHODS)).toString());
-        for (Method m : c.getDeclaredMethods()) {
-            if (!Modifier.isPublic(m.getModifiers())) {
-                check.yes(m + " is private", Modifier.isPrivate(m.getModifiers()));
-                check.yes(m + " has a name of its own", !names.contains(m.getName()));
+        check.judge("the public methods", seen.toString(), due.toString());
+        for (Method method : c.getDeclaredMethods()) {
+            if (!Modifier.isPublic(method.getModifiers())) {
+                check.yes(method + " is private", Modifier.isPrivate(method.getModifiers()));
+                check.yes(method + " has a name of its own", !names.contains(method.getName()));
             }
         }
     }
@@ -70,13 +74,18 @@ public final class FaceTest {
         return text.toString();
     }
 
-    private static void fields(Class<?> c) {
-        int constants = 0;
+    private static void fields(Class<?> c, String face) throws Exception {
+        TreeMap<String, Integer> due = new TreeMap<>();
+        Matcher m = CONSTANT.matcher(face);
+        while (m.find()) {
+            due.put(m.group(1), Integer.valueOf(m.group(2)));
+        }
+        TreeMap<String, Integer> seen = new TreeMap<>();
         for (Field f : c.getDeclaredFields()) {
             if (Modifier.isPublic(f.getModifiers())) {
-                constants++;
-                check.yes(f + " is an int constant", f.getType() == int.class
-                        && Modifier.isStatic(f.getModifiers()) && Modifier.isFinal(f.getModifiers()));
+                boolean constant = f.getType() == int.class && Modifier.isStatic(f.getModifiers());
+                check.yes(f + " is an int constant", constant);
+                seen.put(f.getName(), constant ? f.getInt(null) : 0);
             } else {
                 check.yes(f + " is private", Modifier.isPrivate(f.getModifiers()));
             }
@@ -84,13 +93,7 @@ public final class FaceTest {
                 check.yes(f + " is final", Modifier.isFinal(f.getModifiers()));
             }
         }
-        check.due("the public constants", 3, count(constants));
-        check.due("BAD", -1, () -> KeyStates.BAD);
-        check.due("NO", -3, () -> KeyStates.NO);
-        check.due("FULL", -4, () -> KeyStates.FULL);
-    }
-
-    private static Check.Call count(int n) {
-        return () -> n;
+        check.is("constants of the document", 3, due.size());
+        check.judge("the public constants", seen.toString(), due.toString());
     }
 }
