@@ -179,7 +179,21 @@ final class TermSentences {
             c.is("but for one", FULL, x.put(0, 1));
             c.is("all of a span go", 4, x.clearSpan());
             c.is("room for four", 1, x.put(0, 1));
+            KeyStates y = Make.states(VALUE, 0);
+            for (int n = 0; n < 150; n++) {
+                y.key(16 * n);
+                c.is("entry " + n + " of one page", 1, y.put(0, n));
+            }
+            y.key(16 * 150);
+            c.is("one more of it", FULL, y.put(0, 1));
+            c.is("150 on it", 150, y.told(1));
+            c.is("and on no other", 1, y.told(5));
+            for (int n = 0; n < 150; n++) {
+                c.is("the number of entry " + n, n, y.ask(-1, 0, 16 * n, 0, 0));
+            }
         },
+            "new Entry[first * 2]", "new Entry[first]",
+            "more[r] = rows[r];", "",
             "MOST_ENTRIES = 150", "MOST_ENTRIES = 149",
             "MOST_ENTRIES = 150", "MOST_ENTRIES = 151",
             "old.isNone() && now.countEntries() >=", "old.isNone() && now.countEntriesOf(old.state) >="));
